@@ -44,7 +44,7 @@ public final class StreetKeys {
         log = new Log();
         draftLog = new Log();
         present = new Present();
-        scan = new Scan(texts);
+        scan = new Scan();
         way = new Way();
         plan = new Plan();
         findingCounts = new int[SIZE + 1];
@@ -552,13 +552,13 @@ public final class StreetKeys {
     // ---- texts and events
 
     private int faultOfStreet(int t) {
-        scan.begin(t);
+        scan.begin(texts, t);
         scan.readStreet(draftStreet);
         return scan.wrong;
     }
 
     private int faultOfYear(int t) {
-        scan.begin(t);
+        scan.begin(texts, t);
         scan.readYear(draftLog, street, present.keys, log.size);
         return scan.wrong;
     }
@@ -1093,20 +1093,16 @@ public final class StreetKeys {
 
     /** Reads a TEXT sign by sign; the first place at which it can't go on is kept. */
     private static final class Scan {
-        private final Shelf texts;
-        private int text;
+        private final int[] signs = new int[TEXT_MOST];
         private int size;
         private int place;
-        int wrong;
+        int wrong = NONE;
 
-        Scan(Shelf texts) {
-            this.texts = texts;
-            wrong = NONE;
-        }
-
-        void begin(int t) {
-            text = t;
-            size = texts.sizeOf(t);
+        void begin(Shelf texts, int t) {
+            size = Math.min(TEXT_MOST, Math.max(0, texts.sizeOf(t)));
+            for (int i = 0; i < size; i++) {
+                signs[i] = texts.get(t, i);
+            }
             place = 0;
             wrong = NONE;
         }
@@ -1166,9 +1162,14 @@ public final class StreetKeys {
 
         private void readEvent(Log to, int kind, Street street, int keys) {
             int change = kind != TRUST ? 0 : sign() == 'f' ? 1 : -1;
-            place++;
-            int a = readFirst(kind, street, keys);
+            int a = 0;
             int b = 0;
+            place++;
+            if (kind == MADE || kind == CHANGED) {
+                a = figure(street.houses);
+            } else {
+                a = number(kind == TRUST ? street.persons : keys);
+            }
             if (kind != CHANGED) {
                 expect(joint(kind));
                 b = kind == LAID || kind == INSIDE ? figure(street.houses) : number(street.persons);
@@ -1179,13 +1180,6 @@ public final class StreetKeys {
             if (wrong == NONE) {
                 to.add(kind, a, b, change);
             }
-        }
-
-        private int readFirst(int kind, Street street, int keys) {
-            if (kind == MADE || kind == CHANGED) {
-                return figure(street.houses);
-            }
-            return number(kind == TRUST ? street.persons : keys);
         }
 
         private static int kindOf(int letter) {
@@ -1219,14 +1213,14 @@ public final class StreetKeys {
 
         /** Whether an item is still to be read. */
         private boolean skipToItem() {
-            for (int i = place; i < size && texts.get(text, i) == BLANK; i++) {
-                place = i + 1;
+            for (int i = 0; i < size && sign() == BLANK; i++) {
+                place++;
             }
             return wrong == NONE && place < size;
         }
 
         private int sign() {
-            return texts.get(text, place);
+            return place >= 0 && place < size ? signs[place] : OUTSIDE;
         }
 
         private void stop() {

@@ -6,7 +6,9 @@ import java.lang.reflect.Modifier;
 import java.nio.file.Files;
 import java.nio.file.Path;
 import java.util.Arrays;
+import java.util.Map;
 import java.util.Set;
+import java.util.TreeMap;
 import java.util.TreeSet;
 import java.util.regex.Matcher;
 import java.util.regex.Pattern;
@@ -32,6 +34,7 @@ public final class LanguageTest {
         words(code);
         objectsOnlyWithTheObject(code);
         methodsAreShort(source);
+        callsAreFlat(code);
         due.end();
     }
 
@@ -54,6 +57,11 @@ public final class LanguageTest {
         for (Class<?> inside : c.getDeclaredClasses()) {
             due.is(inside + " is static", inside.getModifiers() & Modifier.STATIC, Modifier.STATIC);
             privateNames(inside, names);
+            fewFields(inside);
+        }
+        fewFields(c);
+        if (c.getDeclaredClasses().length >= 12) {
+            due.fail("more than twelve classes");
         }
         for (Field f : c.getDeclaredFields()) {
             boolean open = Modifier.isPublic(f.getModifiers());
@@ -131,5 +139,48 @@ public final class LanguageTest {
                 start = -1;
             }
         }
+    }
+
+    private static void fewFields(Class<?> c) {
+        long fields = Arrays.stream(c.getDeclaredFields()).filter(f -> !Modifier.isStatic(f.getModifiers())).count();
+        if (fields > 20) {
+            due.fail(c + " has " + fields + " fields");
+        }
+    }
+
+    /** By names alone, methods of one name taken together: so rather too deep than not deep enough. */
+    private static void callsAreFlat(String code) {
+        Map<String, Set<String>> calls = new TreeMap<>();
+        String name = "";
+        for (String line : code.split("\n")) {
+            Matcher head = Pattern.compile("( {4}| {8})[\\w].*?(\\w+)\\([^()]*\\) \\{").matcher(line);
+            if (head.matches() && !line.matches(" *(if|for|switch|while).*")) {
+                name = head.group(2);
+                calls.computeIfAbsent(name, n -> new TreeSet<>());
+            } else if (calls.containsKey(name)) {
+                Matcher call = Pattern.compile("(\\w+)\\(").matcher(line);
+                while (call.find()) {
+                    calls.get(name).add(call.group(1));
+                }
+            }
+        }
+        due.is("enough methods seen", calls.size() > 90 ? 1 : 0, 1);
+        for (String from : calls.keySet()) {
+            String path = deepest(calls, from, 0);
+            if (path.split(" ").length > 8) {
+                due.fail("calls go too deep: " + path);
+            }
+        }
+    }
+
+    private static String deepest(Map<String, Set<String>> calls, String from, int depth) {
+        String longest = "";
+        if (depth < 20) {
+            for (String to : calls.getOrDefault(from, Set.of())) {
+                String path = calls.containsKey(to) ? deepest(calls, to, depth + 1) : "";
+                longest = path.split(" ").length > longest.split(" ").length || longest.isEmpty() ? path : longest;
+            }
+        }
+        return (from + " " + longest).trim();
     }
 }
