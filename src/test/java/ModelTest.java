@@ -22,6 +22,7 @@ public final class ModelTest {
         due.promise(0, "all, against the model");
         for (int seed = 0; seed < RUNS; seed++) {
             new ModelTest(seed).run();
+            new ModelTest(RUNS + seed).tightPlans();
         }
         due.end();
     }
@@ -44,6 +45,32 @@ public final class ModelTest {
                 goBack();
             }
             questions();
+        }
+    }
+
+    /** Streets in which somebody lives nearly everywhere, so that keys have just about enough room. */
+    private void tightPlans() {
+        int houses = 4 + random.nextInt(3);
+        StringBuilder s = new StringBuilder("h1".repeat(houses));
+        for (int p = 0; p < houses + random.nextInt(3); p++) {
+            s.append('p').append(p < houses ? p : random.nextInt(houses)).append(":1");
+        }
+        Due.write(x, 0, s.toString());
+        x.street(0);
+        model.readStreet(s.toString());
+        for (int i = random.nextInt(12); i > 0; i--) {
+            boolean keys = random.nextInt(3) > 0;
+            int a = random.nextInt(houses);
+            int b = random.nextInt(houses);
+            if (x.event(keys ? 1 : 7, a, b, false) >= 0) {
+                model.events.add(new Model.Event(keys ? 1 : 7, a, b, keys ? 0 : -1));
+            }
+        }
+        model.settle();
+        for (int n = 1; n < 3; n++) {
+            for (int m = 0; m < 6; m++) {
+                plan(n, m);
+            }
         }
     }
 
@@ -183,7 +210,7 @@ public final class ModelTest {
     private void questions() {
         asks("stuck", x.stuck(), model.stuck());
         digest();
-        plans();
+        plan(1 + random.nextInt(2), random.nextInt(random.nextBoolean() ? 4 : 10));
         for (int h = 0; h < model.costs.size(); h++) {
             asks("suspects(" + h + ")", x.suspects(h), model.suspects(h));
             asks("dead(" + h + ")", x.dead(h), model.dead(h));
@@ -216,9 +243,7 @@ public final class ModelTest {
         due.is(name + round, x.round(p, set, own), model.way(p, set, own, true));
     }
 
-    private void plans() {
-        int n = 1 + random.nextInt(2);
-        int m = random.nextInt(random.nextBoolean() ? 4 : 10);
+    private void plan(int n, int m) {
         x.row(2, 1);
         x.lay(2, 0, 77);
         List<Integer> plan = model.safe(n, m);

@@ -169,12 +169,18 @@ public final class PromiseTest {
         asks(x, "mean of -5 by 3", x.mean(0), -1);
         x.lay(0, 1, 7);
         asks(x, "mean of 4 by 3", x.mean(0), 1);
+        x.row(2, 1);
+        x.lay(2, 0, -7);
+        asks(x, "mean of one", x.mean(2), -7);
+        x.lay(0, 1, 0);
+        asks(x, "mean of -3 by 3", x.mean(0), -1);
+        x.tear(2);
         x.row(1, 0);
         finds(x, "mean(1)", x.mean(1), 4);
         finds(x, "mean(2)", x.mean(2), 1);
         due.is("mean(6)", x.mean(6), -1);
         due.is("mean(-1)", x.mean(-1), -1);
-        due.is("asked stays", x.asked(), 1);
+        due.is("asked stays", x.asked(), -1);
     }
 
     private static void textAndPut() {
@@ -550,6 +556,12 @@ public final class PromiseTest {
         due.is("alone(2)", x.alone(2), 16);
         x.event(6, 1, 0, true);
         due.is("alone(0), 1 changed", x.alone(0), 8 + 16);
+        StreetKeys y = Due.street("h1h1h1h1h1h1p-:1", "m0>0 m5>0 m4>0 m3>0 i1@0 i2@5 i3@4");
+        due.is("from 0 down the street", y.alone(0), 1 + 32 + 16 + 8);
+        y.event(4, 0, 3, true);
+        due.is("from 0 by its pot", y.alone(0), 1 + 32 + 16 + 8);
+        y = Due.street("h1h1h1h1h1h1p-:1", "m5>0 m0>0 m1>0 m2>0 i1@5 i2@0 i3@1");
+        due.is("from 5 up the street", y.alone(0), 32 + 1 + 2 + 4);
         due.is("alone(3)", x.alone(3), -1);
         due.is("alone(-1)", x.alone(-1), -1);
     }
@@ -709,8 +721,10 @@ public final class PromiseTest {
         due.is("safe(1, 9, 0)", x.safe(1, 9, 0), 12);
         rowIs(x, 0, 0, 1, 0, 2, 1, 0, 1, 2, 2, 0, 2, 1, 3, 0, 3, 1, 4, 0, 4, 1, 5, 0, 5, 1);
         due.is("safe(2, 3, 0)", x.safe(2, 3, 0), 18);
+        // All room is needed: 4 and 5 have to take of each house behind 1, so of 2 they and 0 do.
+        rowIs(x, 0, 0, 1, 0, 2, 0, 3, 1, 0, 1, 2, 1, 3, 2, 0, 2, 4, 2, 5, 3, 0, 3, 4, 3, 5,
+            4, 1, 4, 2, 4, 5, 5, 1, 5, 3, 5, 4);
         due.is("safe(2, 2, 0)", x.safe(2, 2, 0), -9);
-        asks(x, "at(0, 34)", x.at(0, 34), 5);
     }
 
     private static void suspectsAndCopies() {
