@@ -13,6 +13,10 @@ final class Due {
         promise = "promise " + number + " (" + name + ")";
     }
 
+    void name(String test) {
+        promise = test;
+    }
+
     void is(String call, long got, long want) {
         asked++;
         if (got != want) {
