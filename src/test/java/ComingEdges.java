@@ -10,7 +10,7 @@ final class ComingEdges {
     // ---- 21 alone
 
     static void promise21_toNoHouse() {
-        Trial t = Trial.of(STREET).says("alone(0)", 0).says("alone(3)", 0).years("m0>1").says("alone(0)", 0);
+        Trial.of(STREET).says("alone(0)", 0).says("alone(3)", 0).years("m0>1").says("alone(0)", 0);
         Trial.of("p-:1").says("alone(0)", 0);
     }
 
@@ -19,6 +19,10 @@ final class ComingEdges {
         // A chain of all six, down the street and up.
         Trial.of(SIX + "p-:1", "m0>0m1>0i1@0m2>0i2@1m3>0i3@2m4>0i4@3m5>0i5@4").says("alone(0)", 63);
         Trial.of(SIX + "p-:1", "m5>0m4>0i1@5m3>0i2@4m2>0i3@3m1>0i4@2m0>0i5@1").says("alone(0)", 63);
+    }
+
+    static void promise21_throughTheLastHouse() {
+        Trial.of(SIX + "p-:1", "m4>0m5>0i1@4m0>0i2@5m3>0i3@0").says("alone(0)", 16 + 32 + 1 + 8);
     }
 
     static void promise21_byPotsEverywhere() {
@@ -44,6 +48,11 @@ final class ComingEdges {
     static void promise22_nobodyIsTheFewest() {
         Trial.of(STREET, "m2>1l0@0").tells("house(0, 0)", 1).tells("wake(0, 2, false)", 0, 0);
         Trial.of(STREET, "m2>0").tells("house(0, 0)", 1).tells("wake(0, 2, true)", 0, 0);
+    }
+
+    static void promise22_whatHeHimselfHolds() {
+        Trial t = Trial.of(STREET, "m2>1").tells("wake(1, 2, true)", 0, 0).says("wake(1, 2, false)", NONE);
+        t.tells("wake(0, 2, true)", 1, 2).tells("wake(3, 2, true)", 1, 2);
     }
 
     static void promise22_theFirstByBits() {
@@ -84,7 +93,8 @@ final class ComingEdges {
     // ---- 23 odds
 
     static void promise23_howManyHeCanWake() {
-        Trial t = Trial.of(STREET).says("odds(0, 0, false)", 2).says("odds(1, 0, false)", 2).says("odds(3, 0, false)", 3);
+        Trial t = Trial.of(STREET).says("odds(0, 0, false)", 2).says("odds(1, 0, false)", 2)
+            .says("odds(3, 0, false)", 3);
         t.years("q1/0").says("odds(0, 0, false)", 1).years("q2/0").says("odds(0, 0, false)", 0);
         Trial.of("h1p-:1p-:1").says("odds(0, 0, false)", 0);
         Trial.of("h1" + "p0:1".repeat(12)).says("odds(11, 0, false)", 11);
@@ -98,6 +108,11 @@ final class ComingEdges {
     static void promise23_oneIfHeAlwaysComesIn() {
         Trial.of(STREET, "m2>0").odds("odds(0, 2, true)", 2, 1, 1).odds("odds(0, 2, false)", 2, 0, 1);
         Trial.of("h1h1p0:0p1:0p1:12", "m0>2").odds("odds(0, 0, false)", 2, 1, 1);
+    }
+
+    static void promise23_whatHeHimselfHolds() {
+        Trial t = Trial.of(STREET, "m2>1").odds("odds(1, 2, true)", 2, 1, 1).odds("odds(1, 2, false)", 2, 0, 1);
+        t.odds("odds(0, 2, true)", 2, 1, 4);
     }
 
     static void promise23_allOfTheseWhoDoAreWoken() {
@@ -144,9 +159,16 @@ final class ComingEdges {
         t.years("m0>1").says("soonest(0, 0, false)", 4).years("q1/0").says("soonest(0, 0, false)", 8);
     }
 
+    static void promise24_byTheLastPersonAndTheLastHouse() {
+        Trial.of("h1h1" + "p0:0".repeat(11) + "p1:0", "m0>11").says("soonest(0, 1, false)", 3);
+        Trial t = Trial.of(SIX + "p5:0p-:0", "m5>0l0@5").says("soonest(0, 5, false)", 2)
+            .says("soonest(1, 5, false)", 7);
+        t.years("g0>1").says("soonest(0, 5, false)", NONE).says("soonest(1, 5, true)", 6);
+    }
+
     static void promise24_upAndDownTheStreet() {
         // From 2: look at 0 for a KEY of 5, INSIDE which lies that of 2.
-        Trial t = Trial.of(SIX + "p2:1", "m5>0l0@0m2>0i1@5").says("soonest(0, 2, false)", 2 + 1 + 5 + 1 + 3 + 1);
+        Trial.of(SIX + "p2:1", "m5>0l0@0m2>0i1@5").says("soonest(0, 2, false)", 2 + 1 + 5 + 1 + 3 + 1);
     }
 
     static void promise24_throughAllSixHouses() {
@@ -181,16 +203,32 @@ final class ComingEdges {
 
     static void promise25_ofAllHouses() {
         // From 2 down to 0, up to 5 and back: 10 minutes on foot, 6 in HOUSES.
-        Trial.of(SIX + "p2:1", "m0>0m1>0m2>0m3>0m4>0m5>0").says("round(0, 63, true)", 16).says("round(0, 63, false)", NONE);
+        Trial.of(SIX + "p2:1", "m0>0m1>0m2>0m3>0m4>0m5>0").says("round(0, 63, true)", 16)
+            .says("round(0, 63, false)", NONE);
+    }
+
+    static void promise25_wakingInAllHouses() {
+        // 10 minutes on foot, a look ahead of each HOUSE and a minute in it.
+        String all = "p0:0p1:0p2:0p3:0p4:0p5:0";
+        Trial.of(SIX + all + "p2:0", "").says("round(6, 63, false)", 22);
+        Trial.of(SIX + all + "p-:0", "").says("round(6, 63, false)", 22);
+        Trial.of(SIX + all, "").says("round(5, 63, false)", NONE).says("round(5, 31, false)", 20);
     }
 
     static void promise25_standsWhereHeBegan() {
-        Trial.of(SIX + "p3:1p-:1", "m0>0m5>0m5>1").says("round(0, 1, true)", 3 + 1 + 3).says("round(0, 33, true)", 3 + 5 + 2 + 2)
+        Trial.of(SIX + "p3:1p-:1", "m0>0m5>0m5>1").says("round(0, 1, true)", 3 + 1 + 3)
+            .says("round(0, 33, true)", 3 + 5 + 2 + 2)
             .says("round(1, 32, true)", 5 + 1 + 5);
     }
 
+    static void promise25_whatHeHimselfHolds() {
+        Trial t = Trial.of(STREET, "m2>1m0>0").says("round(1, 4, true)", 3).says("round(1, 4, false)", NONE);
+        t.says("round(0, 4, true)", 1 + 1 + 1 + 1 + 2).says("round(1, 1, true)", 1 + 1 + 1 + 1);
+    }
+
     static void promise25_justTheHousesOfTheSet() {
-        Trial.of(SIX + "p0:1", "m0>0m1>0m2>0").says("round(0, 4, true)", 5).says("round(0, 5, true)", 6).says("round(0, 2, true)", 3);
+        Trial.of(SIX + "p0:1", "m0>0m1>0m2>0").says("round(0, 4, true)", 5).says("round(0, 5, true)", 6)
+            .says("round(0, 2, true)", 3);
     }
 
     static void promise25_noneIfOneOfThemIsNot() {
@@ -223,7 +261,8 @@ final class ComingEdges {
     }
 
     static void promise26_withADeadKeyAlone() {
-        Trial.of("h1p0:1", "m0>0").tells("stuck()", 0, 0).years("x0").tells("stuck()", 1, 1).years("i0@0").tells("stuck()", 1, 1);
+        Trial.of("h1p0:1", "m0>0").tells("stuck()", 0, 0).years("x0").tells("stuck()", 1, 1).years("i0@0")
+            .tells("stuck()", 1, 1);
     }
 
     static void promise26_itsKeyIsInsideItself() {
@@ -231,12 +270,14 @@ final class ComingEdges {
     }
 
     static void promise26_theyLockOneAnotherIn() {
-        Trial t = Trial.of("h1h1h1p0:1", "m0>0i0@1m1>0i1@0").tells("stuck()", 7, 4).years("l1@2").tells("stuck()", 4, 4);
+        Trial t = Trial.of("h1h1h1p0:1", "m0>0i0@1m1>0i1@0").tells("stuck()", 7, 4).years("l1@2")
+            .tells("stuck()", 4, 4);
         t.years("i1@0m2>0i2@2").tells("stuck()", 7, 0).years("g0>0").tells("stuck()", 4, 0);
     }
 
     static void promise26_comesOnFromThese() {
-        Trial t = Trial.of("h1h1h1p0:1", "m0>0m1>0i1@0m2>0i2@1").tells("stuck()", 0, 0).years("x1").tells("stuck()", 6, 2);
+        Trial.of("h1h1h1p0:1", "m0>0m1>0i1@0m2>0i2@1").tells("stuck()", 0, 0).years("x1")
+            .tells("stuck()", 6, 2);
     }
 
     static void promise26_keysOfAllPersonsAndPots() {

@@ -61,7 +61,8 @@ final class EventEdges {
     // ---- 11 street
 
     static void promise11_noHouses() {
-        new Trial().says("text(0, 0)", 0).says("street(0)", 0).write(0, "p-:1").says("street(0)", 0).says("count(1)", 1);
+        new Trial().says("text(0, 0)", 0).says("street(0)", 0).write(0, "p-:1").says("street(0)", 0)
+            .says("count(1)", 1);
     }
 
     static void promise11_sixHouses() {
@@ -69,7 +70,8 @@ final class EventEdges {
     }
 
     static void promise11_anew() {
-        Trial t = Trial.of("h1h2h3p2:5p2:6").write(2, "h9p0:7").says("street(2)", 1).says("count(0)", 1).says("count(1)", 1);
+        Trial t = Trial.of("h1h2h3p2:5p2:6").write(2, "h9p0:7").says("street(2)", 1).says("count(0)", 1)
+            .says("count(1)", 1);
         t.tells("house(0, 0)", 9).tells("person(0, 1)", 7).refuses("house(1, 0)", BAD).refuses("person(1, 0)", BAD);
         t.says("text(2, 0)", 0).says("street(2)", 0).says("count(0)", 0).says("count(1)", 0);
     }
@@ -86,7 +88,7 @@ final class EventEdges {
     }
 
     static void promise11_rowsAndTextsStay() {
-        Trial t = new Trial().row(0, 5).write(2, "h1").says("street(2)", 1).rowIs(0, 5).says("put(2, 0, 1)", 1104);
+        new Trial().row(0, 5).write(2, "h1").says("street(2)", 1).rowIs(0, 5).says("put(2, 0, 1)", 1104);
     }
 
     static void promise11_aFaultIsState() {
@@ -176,6 +178,14 @@ final class EventEdges {
         t.refuses("event(2, MIN, 0, true)", BAD).refuses("event(2, MAX, 0, true)", BAD);
     }
 
+    static void promise13_ofTheLastHouseAndTheLastPerson() {
+        Trial t = Trial.of("h1".repeat(6) + "p0:1".repeat(12)).says("event(1, 5, 11, true)", 0)
+            .says("event(6, 5, 0, true)", 1);
+        t.tells("house(5, 1)", 1).tells("key(0, 1)", 0).says("event(7, 11, 10, false)", 2).tells("trust(11, 10)", -1);
+        t.says("back(1)", 2).tells("house(5, 1)", 0).tells("key(0, 1)", 1).tells("trust(11, 10)", 0);
+        t.says("event(1, 5, 11, true)", 1).tells("key(1, 1)", 1);
+    }
+
     static void promise13_givenTakesKeyAndPerson() {
         Trial.of(STREET, YEAR).takes("event(3, #, 0, true)", 0, 1).takes("event(3, 0, #, true)", 0, 2);
     }
@@ -208,7 +218,8 @@ final class EventEdges {
     static void promise13_moreOrLessIsOfTrustAlone() {
         Trial t = Trial.of(STREET, "m0>0").says("event(7, 0, 1, true)", 1).says("event(7, 1, 0, false)", 2);
         t.tells("trust(0, 1)", 1).tells("trust(1, 0)", -1).tells("told(1, 3)", 1).tells("told(2, 3)", -1);
-        t.says("event(3, 0, 1, true)", 3).says("event(3, 0, 1, false)", 4).tells("told(3, 3)", 0).tells("told(4, 3)", 0);
+        t.says("event(3, 0, 1, true)", 3).says("event(3, 0, 1, false)", 4).tells("told(3, 3)", 0)
+            .tells("told(4, 3)", 0);
     }
 
     static void promise13_withoutHousesPersonsKeys() {
@@ -223,7 +234,8 @@ final class EventEdges {
     }
 
     static void promise13_aFortyFirstEventIsFull() {
-        Trial t = Trial.of("h1p0:1", "x0".repeat(39)).says("event(6, 0, 0, true)", 39).refuses("event(6, 0, 0, true)", FULL);
+        Trial t = Trial.of("h1p0:1", "x0".repeat(39)).says("event(6, 0, 0, true)", 39)
+            .refuses("event(6, 0, 0, true)", FULL);
         t.refuses("event(1, 0, 0, true)", FULL).says("back(39)", 1).says("event(1, 0, 0, true)", 39);
     }
 
@@ -275,7 +287,7 @@ final class EventEdges {
         // The fourth q did nothing, so taking it back does nothing, too.
         Trial t = Trial.of("p-:1p-:1", "q0/1q0/1q0/1q0/1q0/1").says("back(4)", 1).tells("trust(0, 1)", -3);
         t.says("back(3)", 1).tells("trust(0, 1)", -3).says("back(2)", 1).tells("trust(0, 1)", -2);
-        Trial u = Trial.of("p-:1p-:1", "f0/1f0/1f0/1f0/1").says("back(3)", 1).tells("trust(0, 1)", 3);
+        Trial.of("p-:1p-:1", "f0/1f0/1f0/1f0/1").says("back(3)", 1).tells("trust(0, 1)", 3);
     }
 
     static void promise14_passedAndLocksGoBack() {
@@ -287,7 +299,8 @@ final class EventEdges {
     // ---- 15 told
 
     static void promise15_ofEachEvent() {
-        int[][] due = {{1, 1, 2, 0}, {2, 0, 1, 0}, {3, 1, 2, 0}, {4, 0, 1, 0}, {5, 1, 0, 0}, {6, 1, 0, 0}, {7, 0, 2, -1},
+        int[][] due = {{1, 1, 2, 0}, {2, 0, 1, 0}, {3, 1, 2, 0}, {4, 0, 1, 0}, {5, 1, 0, 0}, {6, 1, 0, 0}, {7, 0, 2,
+            -1},
             {7, 2, 1, 1}};
         Trial t = Trial.of(STREET, YEAR);
         for (int e = 0; e < due.length; e++) {
@@ -303,7 +316,7 @@ final class EventEdges {
     }
 
     static void promise15_trustsChangeThoughNothingChanged() {
-        Trial t = Trial.of("p-:1p-:1", "q0/1q0/1q0/1q0/1").tells("told(3, 3)", -1);
+        Trial.of("p-:1p-:1", "q0/1q0/1q0/1q0/1").tells("told(3, 3)", -1);
         Trial.of("p-:1p-:1", "f0/1f0/1f0/1f0/1").tells("told(3, 3)", 1);
     }
 
@@ -339,7 +352,8 @@ final class EventEdges {
 
     static void promise16_unlike() {
         Trial t = Trial.of(STREET, YEAR);
-        t.finds("mark(0, 2)", UNLIKE).finds("mark(3, 5)", UNLIKE).finds("mark(1, 3)", UNLIKE).finds("mark(2, 1)", UNLIKE);
+        t.finds("mark(0, 2)", UNLIKE).finds("mark(3, 5)", UNLIKE).finds("mark(1, 3)", UNLIKE)
+            .finds("mark(2, 1)", UNLIKE);
         t.finds("mark(5, 7)", UNLIKE).finds("mark(6, 6)", UNLIKE).finds("mark(4, 3)", UNLIKE);
     }
 

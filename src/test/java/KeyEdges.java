@@ -60,7 +60,8 @@ final class KeyEdges {
     // ---- 2 COMING
 
     static void terms2_aHouseIsOpenByALiveKeyAlone() {
-        Trial.of("h1p0:1", "m0>0").says("alone(0)", 1).years("x0").says("alone(0)", 0).years("m0>0").says("alone(0)", 1);
+        Trial.of("h1p0:1", "m0>0").says("alone(0)", 1).years("x0").says("alone(0)", 0).years("m0>0")
+            .says("alone(0)", 1);
     }
 
     static void terms2_oneHasAllKeysInsideOpenHouses() {
@@ -114,8 +115,10 @@ final class KeyEdges {
         // TRUST of 1 in 0 is what counts: -1 is too little, 0 enough; that of 0 in 1 does not matter.
         Trial t = Trial.of("h1h1p0:1p1:6", "m0>1q0/1q0/1q0/1").tells("wake(0, 0, false)", 1, 2);
         t.odds("odds(0, 0, false)", 1, 1, 2).says("soonest(0, 0, false)", 4);
-        t.years("q1/0").says("wake(0, 0, false)", NONE).odds("odds(0, 0, false)", 0, 0, 1).says("soonest(0, 0, false)", NONE);
-        t.years("f1/0").tells("wake(0, 0, false)", 1, 2).odds("odds(0, 0, false)", 1, 1, 2).says("soonest(0, 0, false)", 4);
+        t.years("q1/0").says("wake(0, 0, false)", NONE).odds("odds(0, 0, false)", 0, 0, 1)
+            .says("soonest(0, 0, false)", NONE);
+        t.years("f1/0").tells("wake(0, 0, false)", 1, 2).odds("odds(0, 0, false)", 1, 1, 2)
+            .says("soonest(0, 0, false)", 4);
         t.years("f1/0").tells("wake(0, 0, false)", 1, 2);
     }
 
@@ -183,6 +186,21 @@ final class KeyEdges {
         Trial.of(SIX + "p0:0p1:0p1:0", "m0>1m2>2").says("round(0, 5, false)", 7);
     }
 
+    static void terms2_severalWhoHandOverTheSameAreAsOne() {
+        Trial t = Trial.of(SIX + "p0:0p1:0p1:0", "m0>1m0>2").says("soonest(0, 1, false)", 3)
+            .says("soonest(0, 0, false)", 4);
+        t.years("m0>0l2@1m1>0l3@1").says("soonest(0, 1, false)", 3).says("soonest(0, 0, false)", 4);
+    }
+
+    static void terms2_eachWayIsItsOwn() {
+        // What a WAY found stays with it: the next one begins anew, by what is then.
+        Trial t = Trial.of(SIX + "p0:1p0:1p-:1", "m0>2l0@0q1/0").says("soonest(0, 0, false)", 2);
+        t.years("g0>2").says("soonest(0, 0, false)", NONE).says("soonest(1, 0, false)", 2)
+            .says("soonest(0, 0, false)", NONE);
+        t.years("i0@1m1>0").says("soonest(0, 0, true)", 4).years("g0>2").says("soonest(0, 0, true)", NONE);
+        t.says("soonest(0, 1, true)", 2).says("soonest(0, 1, false)", NONE);
+    }
+
     static void terms2_onTheWayThoseAreWokenWhomHeCanWake() {
         Trial t = Trial.of(SIX + "p0:0p1:0p1:0", "m0>1m2>2q1/0");
         t.says("soonest(0, 0, false)", NONE).says("soonest(0, 2, false)", 4).says("soonest(0, 1, false)", 3);
@@ -220,6 +238,9 @@ final class KeyEdges {
             Trial.of(THREE, q, q.replace('q', 'f')).says("safe(1, 9, 0)", 6);
         }
         Trial.of(THREE, "f0/1f1/2f2/0").says("safe(1, 9, 0)", 6);
+        // Both ways at once, too.
+        Trial.of(THREE, "q0/1q1/0").says("safe(1, 9, 0)", NONE);
+        Trial.of(THREE + "p1:1", "q0/1q0/3q1/0q3/0").says("safe(1, 9, 0)", NONE);
     }
 
     static void terms3_oneOfSeveralIsEnoughNotToHelp() {
@@ -277,7 +298,8 @@ final class KeyEdges {
     }
 
     static void terms3_noKeyIsGivenToWhoHasOne() {
-        Trial.of("h1" + THREE + "p3:1", "m0>1").says("safe(1, 9, 0)", 7).rowIs(0, 0, 2, 1, 0, 1, 2, 2, 0, 2, 1, 3, 0, 3, 1);
+        Trial.of("h1" + THREE + "p3:1", "m0>1").says("safe(1, 9, 0)", 7)
+            .rowIs(0, 0, 2, 1, 0, 1, 2, 2, 0, 2, 1, 3, 0, 3, 1);
     }
 
     static void terms3_eachHouseMNewOnesAtMost() {
@@ -292,6 +314,20 @@ final class KeyEdges {
         Trial t = Trial.of("h1" + THREE + "p3:1").says("safe(1, 2, 0)", 8);
         t.rowIs(0, 0, 1, 0, 2, 1, 0, 1, 3, 2, 0, 2, 3, 3, 1, 3, 2);
         t.says("safe(1, 3, 0)", 8).rowIs(0, 0, 1, 0, 2, 1, 0, 1, 2, 2, 0, 2, 1, 3, 0, 3, 1);
+    }
+
+    static void terms3_eachPlanIsItsOwn() {
+        String four = "h1" + THREE + "p3:1";
+        Trial t = Trial.of(four).says("safe(1, 2, 0)", 8).years("q0/1q2/3").says("safe(1, 2, 0)", 8);
+        t.rowIs(0, 0, 2, 0, 3, 1, 2, 1, 3, 2, 0, 2, 1, 3, 0, 3, 1).says("back(0)", 2).says("safe(1, 3, 0)", 8);
+        t.rowIs(0, 0, 1, 0, 2, 1, 0, 1, 2, 2, 0, 2, 1, 3, 0, 3, 1);
+        // As in promise 27's first plan that goes on, behind one by which all could be given to all.
+        t = Trial.of(four).says("safe(1, 9, 0)", 8).years("m3>0m0>3m1>3m1>2m2>0m2>1q3/2").says("safe(1, 1, 0)", 2);
+        t.rowIs(0, 0, 2, 3, 1);
+        // HOUSE 3 and those who lived there are gone.
+        t = Trial.of(four).says("safe(2, 9, 0)", 12).write(2, "h1" + THREE).says("street(2)", 4)
+            .says("safe(1, 2, 0)", 6);
+        t.rowIs(0, 0, 1, 0, 2, 1, 0, 1, 2, 2, 0, 2, 1);
     }
 
     // ---- 3 SUSPECTS, RINGS

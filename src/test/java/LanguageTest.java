@@ -6,6 +6,7 @@ import java.lang.reflect.Modifier;
 import java.nio.file.Files;
 import java.nio.file.Path;
 import java.util.Arrays;
+import java.util.IdentityHashMap;
 import java.util.Map;
 import java.util.Set;
 import java.util.TreeMap;
@@ -35,7 +36,121 @@ public final class LanguageTest {
         objectsOnlyWithTheObject(code);
         methodsAreShort(source);
         callsAreFlat(code);
+        signs(source, code);
+        libraryCalls(code);
+        divisors(code);
+        fieldTypes();
+        room();
         due.end();
+    }
+
+    /** Rules 3 and 4: no text is used, and nothing but plain signs stands in the file. */
+    private static void signs(String source, String code) {
+        due.is("rule 4: texts in the program", code.indexOf('"'), -1);
+        for (int i = 0; i < source.length(); i++) {
+            char c = source.charAt(i);
+            if (c != '\n' && (c < 32 || c > 126)) {
+                due.fail("sign " + (int) c + " at place " + i);
+            }
+        }
+    }
+
+    /** Rule 4: of the library just what is listed. */
+    private static void libraryCalls(String code) {
+        Set<String> listed = Set.of("Math.max", "Math.min", "Integer.bitCount", "System.arraycopy", "Log.makesKey",
+            "Log.isOfKind");
+        Matcher m = Pattern.compile("\\b[A-Z][a-z]\\w*\\.\\w+").matcher(code);
+        while (m.find()) {
+            if (!listed.contains(m.group())) {
+                due.fail("rule 4: " + m.group());
+            }
+        }
+    }
+
+    /** Rule 7: a divisor is a constant above 0, or one that its own lines have looked at. */
+    private static void divisors(String code) {
+        Set<String> lookedAt = Set.of("size", "common", "y");
+        Matcher m = Pattern.compile("[^ ]+ [/%]=? (\\(?\\w+)").matcher(code);
+        int seen = 0;
+        while (m.find()) {
+            seen++;
+            String by = m.group(1).replace("(", "");
+            if (!by.equals("SETS") && !lookedAt.contains(by)) {
+                due.fail("rule 7: " + m.group());
+            }
+        }
+        due.is("divisors seen", seen > 5 ? 1 : 0, 1);
+    }
+
+    /** Rules 2, 3 and 5: what fields there are. */
+    private static void fieldTypes() {
+        fieldTypes(StreetKeys.class);
+        for (Class<?> inside : StreetKeys.class.getDeclaredClasses()) {
+            fieldTypes(inside);
+            boolean plain = !inside.isInterface() && !inside.isEnum() && !inside.isRecord();
+            due.is(inside + " is a plain class", plain ? 1 : 0, 1);
+        }
+    }
+
+    private static void fieldTypes(Class<?> c) {
+        for (Field f : c.getDeclaredFields()) {
+            Class<?> type = f.getType();
+            boolean number = type == int.class || type == long.class || type == boolean.class;
+            if (Modifier.isStatic(f.getModifiers()) && !(number && Modifier.isFinal(f.getModifiers()))) {
+                due.fail("rule 5: " + f);
+            }
+            if (!number && type != int[].class && type.getEnclosingClass() != StreetKeys.class) {
+                due.fail("rule 3: " + f);
+            }
+        }
+    }
+
+    /** Rule 12: what an object holds is small, and no call makes it hold more. */
+    private static void room() {
+        String street = "h9h20h3h1h2h5p0:12p1:5p2:0p3:7p4:3p5:1p-:1";
+        StreetKeys x = Due.street(street, "m0>0m1>1m2>3m3>4c0>3i1@2l2@0q0/1x3m3>0");
+        long[] before = new long[2];
+        count(x, new IdentityHashMap<>(), before);
+        x.safe(2, 9, 0);
+        x.round(6, 63, true);
+        x.odds(6, 5, true);
+        x.lost(0, 1);
+        x.digest();
+        long[] after = new long[2];
+        count(x, new IdentityHashMap<>(), after);
+        due.is("objects behind calls", after[0], before[0]);
+        due.is("fields and elements behind calls", after[1], before[1]);
+        // 512 objects would still fit the room of 600,000 objects and 7.3 million fields and elements.
+        due.is("few objects", before[0] < 100 ? 1 : 0, 1);
+        due.is("few fields and elements", before[1] < 14000 ? 1 : 0, 1);
+    }
+
+    private static void count(Object o, Map<Object, Object> seen, long[] sums) {
+        if (o == null || seen.put(o, o) != null) {
+            return;
+        }
+        sums[0]++;
+        if (o instanceof int[] row) {
+            sums[1] += row.length;
+            return;
+        }
+        for (Field f : o.getClass().getDeclaredFields()) {
+            if (!Modifier.isStatic(f.getModifiers())) {
+                sums[1]++;
+                countField(o, f, seen, sums);
+            }
+        }
+    }
+
+    private static void countField(Object o, Field f, Map<Object, Object> seen, long[] sums) {
+        try {
+            f.setAccessible(true);
+            if (!f.getType().isPrimitive()) {
+                count(f.get(o), seen, sums);
+            }
+        } catch (IllegalAccessException e) {
+            due.fail(f + " can't be read");
+        }
     }
 
     private static void face() {

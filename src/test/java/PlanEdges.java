@@ -30,12 +30,14 @@ final class PlanEdges {
     }
 
     static void promise27_noKeysIfAllAreSafe() {
-        Trial t = Trial.of("h1h1h1p0:1p1:1p2:1", "m0>1m0>2m1>0m1>2m2>0m2>1").row(0, 5, 6).says("safe(1, 0, 0)", 0).rowIs(0);
+        Trial t = Trial.of("h1h1h1p0:1p1:1p2:1", "m0>1m0>2m1>0m1>2m2>0m2>1").row(0, 5, 6).says("safe(1, 0, 0)", 0)
+            .rowIs(0);
         t.years("x0").says("safe(1, 1, 0)", 2).rowIs(0, 0, 1, 0, 2);
     }
 
     static void promise27_theRowIsAnew() {
-        Trial t = Trial.of("h1h1h1p0:1p1:1p2:1", "m0>1m1>0m1>2m2>0m2>1").says("row(0, 40)", 40).tells("lay(0, 0, 9)", 0);
+        Trial t = Trial.of("h1h1h1p0:1p1:1p2:1", "m0>1m1>0m1>2m2>0m2>1").says("row(0, 40)", 40)
+            .tells("lay(0, 0, 9)", 0);
         t.says("safe(1, 1, 0)", 1).rowIs(0, 0, 2);
     }
 
@@ -47,7 +49,8 @@ final class PlanEdges {
     static void promise27_theMostKeys() {
         // Six HOUSES, three KEYS each: 18 pairs, each HOUSE is given a KEY of three.
         Trial t = Trial.of(SIX + "p0:1p1:1p2:1p3:1p4:1p5:1").says("safe(2, 2, 0)", NONE).says("safe(2, 3, 0)", 18);
-        t.rowIs(0, 0, 1, 0, 2, 0, 3, 1, 0, 1, 2, 1, 3, 2, 0, 2, 4, 2, 5, 3, 0, 3, 4, 3, 5, 4, 1, 4, 2, 4, 5, 5, 1, 5, 3, 5, 4);
+        t.rowIs(0, 0, 1, 0, 2, 0, 3, 1, 0, 1, 2, 1, 3, 2, 0, 2, 4, 2, 5, 3, 0, 3, 4, 3, 5, 4, 1, 4, 2, 4, 5, 5, 1, 5,
+            3, 5, 4);
         t.says("safe(2, 9, 0)", 18).rowIs(0, 0, 1, 0, 2, 0, 3, 1, 0, 1, 2, 1, 3, 2, 0, 2, 1, 2, 3, 3, 0, 3, 1, 3, 2,
             4, 0, 4, 1, 4, 2, 5, 0, 5, 1, 5, 2);
     }
@@ -56,6 +59,17 @@ final class PlanEdges {
         // 0 needs 1 or 2, but 3 needs 1 (2 does not help it): with one new KEY for each, 0 has to take 2.
         Trial t = Trial.of(FOUR, "m3>0m0>3m1>3m1>2m2>0m2>1q3/2").says("safe(1, 1, 0)", 2).rowIs(0, 0, 2, 3, 1);
         t.says("safe(1, 2, 0)", 2).rowIs(0, 0, 1, 3, 1).says("safe(1, 0, 0)", NONE);
+    }
+
+    static void promise27_withTheLastHouse() {
+        String six = SIX + "p0:1p1:1p2:1p3:1p4:1p5:1";
+        Trial t = Trial.of(six, "m0>5").says("safe(1, 9, 3)", 11);
+        t.rowIs(3, 0, 1, 1, 0, 1, 2, 2, 0, 2, 1, 3, 0, 3, 1, 4, 0, 4, 1, 5, 0, 5, 1);
+        t.years("q0/5").says("safe(1, 9, 3)", 12);
+        t.rowIs(3, 0, 1, 0, 2, 1, 0, 1, 2, 2, 0, 2, 1, 3, 0, 3, 1, 4, 0, 4, 1, 5, 1, 5, 2);
+        // 0 needs 5, 1 needs 3 or 4, 2 needs 3 or 5: with one new KEY for each, 2 takes 3, so 1 takes 4.
+        t = Trial.of(six, "m0>1m1>0m2>4m3>2m3>4m4>2m4>3m5>2m5>3q0/2q0/3q0/4q1/2q1/5");
+        t.says("safe(1, 1, 4)", 3).rowIs(4, 0, 5, 1, 4, 2, 3).says("safe(1, 2, 4)", 3).rowIs(4, 0, 5, 1, 3, 2, 3);
     }
 
     static void promise27_isNotAsked() {
@@ -121,6 +135,10 @@ final class PlanEdges {
         t.years("i2@0").tells("copies(3, 0)", 1, 4);
     }
 
+    static void promise29_ofTheLastHouse() {
+        Trial.of(SIX + "p-:1p-:1", "m5>0g0>1").tells("copies(0, 5)", 1, 32).tells("copies(1, 5)", 0, 0);
+    }
+
     static void promise29_neverMoreThanOneIsNeeded() {
         // From 1 to 2 and from 2 to 0: the COPY of that of 1 leads on alone.
         Trial.of(STREET, "m1>3g0>0m2>0i1@1m0>0i2@2").tells("copies(3, 0)", 1, 2).tells("copies(3, 2)", 1, 2);
@@ -139,7 +157,8 @@ final class PlanEdges {
     }
 
     static void promise29_oneWhoLivesThereIsBad() {
-        Trial t = Trial.of(STREET, "m0>0m1>1m1>2").refuses("copies(0, 0)", BAD).refuses("copies(1, 1)", BAD).refuses("copies(2, 1)", BAD);
+        Trial t = Trial.of(STREET, "m0>0m1>1m1>2").refuses("copies(0, 0)", BAD).refuses("copies(1, 1)", BAD)
+            .refuses("copies(2, 1)", BAD);
         t.says("copies(0, 1)", NONE).says("copies(3, 0)", NONE);
     }
 
@@ -173,7 +192,8 @@ final class PlanEdges {
     }
 
     static void promise30_underPotsAndInsideNobodyHolds() {
-        Trial t = Trial.of(STREET, "m0>1m0>2m0>3x0l0@1i1@2").tells("dead(0)", 3, 8).years("g0>0").tells("dead(0)", 3, 1 + 8);
+        Trial.of(STREET, "m0>1m0>2m0>3x0l0@1i1@2").tells("dead(0)", 3, 8).years("g0>0")
+            .tells("dead(0)", 3, 1 + 8);
     }
 
     static void promise30_allKeys() {
@@ -221,7 +241,8 @@ final class PlanEdges {
     }
 
     static void promise31_theRowIsAnew() {
-        Trial t = Trial.of(STREET, "m1>3").says("row(2, 40)", 40).tells("lay(2, 0, 9)", 0).tells("lost(3, 2)", 1, 8).rowIs(2, 1);
+        Trial.of(STREET, "m1>3").says("row(2, 40)", 40).tells("lay(2, 0, 9)", 0).tells("lost(3, 2)", 1, 8)
+            .rowIs(2, 1);
     }
 
     static void promise31_theRingIsStillHeld() {

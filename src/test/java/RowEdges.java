@@ -74,7 +74,8 @@ final class RowEdges {
     }
 
     static void promise03_whatItWasNotWhatItIs() {
-        rows(0).tells("lay(0, 0, MAX)", 0).tells("lay(0, 0, MIN)", MAX).tells("lay(0, 0, -1)", MIN).tells("lay(0, 0, 0)", -1);
+        rows(0).tells("lay(0, 0, MAX)", 0).tells("lay(0, 0, MIN)", MAX).tells("lay(0, 0, -1)", MIN)
+            .tells("lay(0, 0, 0)", -1);
     }
 
     static void promise03_placesThatThereAreNot() {
@@ -102,7 +103,8 @@ final class RowEdges {
     }
 
     static void promise04_placesThatThereAreNot() {
-        rows(5, 6).finds("at(0, 2)", BEYOND).finds("at(0, -1)", BEYOND).finds("at(0, MAX)", BEYOND).finds("at(0, MIN)", BEYOND);
+        rows(5, 6).finds("at(0, 2)", BEYOND).finds("at(0, -1)", BEYOND).finds("at(0, MAX)", BEYOND)
+            .finds("at(0, MIN)", BEYOND);
     }
 
     static void promise04_placesOfAnotherRowAreNone() {
@@ -121,6 +123,16 @@ final class RowEdges {
     static void promise04_noSuchRow() {
         Trial t = rows(1);
         t.row(5, 2).takes("at(#, 0)", 0, 5);
+    }
+
+    static void promise04_eachRowHasItsOwn() {
+        Trial t = new Trial();
+        for (int r = 0; r < 6; r++) {
+            t.row(r, new int[r + 1]).tells("lay(" + r + ", " + r + ", " + (r + 10) + ")", 0);
+        }
+        for (int r = 0; r < 6; r++) {
+            t.tells("at(" + r + ", " + r + ")", r + 10).says("at(" + r + ", " + (r + 1) + ")", -3);
+        }
     }
 
     // ---- 5 tear
@@ -152,15 +164,18 @@ final class RowEdges {
     static void promise06_ofNoPlaces() {
         Trial t = rows(1, 2, 3);
         t.row(1, 8, 9).row(2).row(3);
-        t.says("copy(0, 0, 1, 0, 0)", 1).says("copy(0, 3, 1, 2, 0)", 1).says("copy(2, 0, 3, 0, 0)", 1).says("copy(2, 0, 2, 0, 0)", 1);
+        t.says("copy(0, 0, 1, 0, 0)", 1).says("copy(0, 3, 1, 2, 0)", 1).says("copy(2, 0, 3, 0, 0)", 1)
+            .says("copy(2, 0, 2, 0, 0)", 1);
         t.rowIs(0, 1, 2, 3).rowIs(1, 8, 9).rowIs(2).rowIs(3);
     }
 
     static void promise06_ofNoPlacesBeyondTheEnd() {
         Trial t = rows(1, 2, 3);
         t.row(1, 8, 9).row(2);
-        t.finds("copy(0, 4, 1, 0, 0)", BEYOND).finds("copy(0, 0, 1, 3, 0)", BEYOND).finds("copy(0, -1, 1, 0, 0)", BEYOND);
-        t.finds("copy(0, 0, 1, -1, 0)", BEYOND).finds("copy(2, 1, 0, 0, 0)", BEYOND).finds("copy(0, MAX, 0, MIN, 0)", BEYOND);
+        t.finds("copy(0, 4, 1, 0, 0)", BEYOND).finds("copy(0, 0, 1, 3, 0)", BEYOND)
+            .finds("copy(0, -1, 1, 0, 0)", BEYOND);
+        t.finds("copy(0, 0, 1, -1, 0)", BEYOND).finds("copy(2, 1, 0, 0, 0)", BEYOND)
+            .finds("copy(0, MAX, 0, MIN, 0)", BEYOND);
     }
 
     static void promise06_ontoItselfAsIfTakenAhead() {
@@ -183,11 +198,20 @@ final class RowEdges {
         t.row(1, 6, 7, 8, 9).says("copy(0, 2, 1, 1, 2)", 1).rowIs(1, 6, 3, 4, 9).rowIs(0, 1, 2, 3, 4);
     }
 
+    static void promise06_betweenAnyRows() {
+        Trial t = new Trial().row(0, 5, 5, 5).row(3, 1, 2, 3).row(4, 7, 8, 9);
+        t.says("copy(3, 1, 4, 0, 2)", 1).rowIs(4, 2, 3, 9).says("copy(4, 2, 3, 0, 1)", 1).rowIs(3, 9, 2, 3);
+        t.says("row(1, 1)", 1).finds("copy(1, 0, 4, 0, 2)", BEYOND).finds("copy(4, 0, 1, 0, 2)", BEYOND)
+            .rowIs(0, 5, 5, 5);
+    }
+
     static void promise06_notSoManyThere() {
         Trial t = rows(1, 2, 3);
         t.row(1, 8, 9);
-        t.finds("copy(0, 1, 1, 0, 3)", BEYOND).finds("copy(0, 0, 1, 1, 2)", BEYOND).finds("copy(0, 0, 1, 0, 3)", BEYOND);
-        t.finds("copy(1, 0, 0, 0, 3)", BEYOND).finds("copy(0, 2, 0, 0, 2)", BEYOND).finds("copy(0, 0, 0, 2, 2)", BEYOND);
+        t.finds("copy(0, 1, 1, 0, 3)", BEYOND).finds("copy(0, 0, 1, 1, 2)", BEYOND)
+            .finds("copy(0, 0, 1, 0, 3)", BEYOND);
+        t.finds("copy(1, 0, 0, 0, 3)", BEYOND).finds("copy(0, 2, 0, 0, 2)", BEYOND)
+            .finds("copy(0, 0, 0, 2, 2)", BEYOND);
         t.finds("copy(0, 3, 1, 0, 1)", BEYOND).finds("copy(0, 0, 1, 2, 1)", BEYOND);
         t.finds("copy(0, -1, 1, 0, 2)", BEYOND).finds("copy(0, 0, 1, -1, 2)", BEYOND);
         t.rowIs(0, 1, 2, 3).rowIs(1, 8, 9);
@@ -195,12 +219,15 @@ final class RowEdges {
 
     static void promise06_numbersThatWrapAround() {
         Trial t = rows(1, 2, 3);
-        t.finds("copy(0, MAX, 0, 0, MAX)", BEYOND).finds("copy(0, 0, 0, MAX, MAX)", BEYOND).finds("copy(0, 1, 0, 1, MAX)", BEYOND);
-        t.finds("copy(0, MIN, 0, 0, MAX)", BEYOND).finds("copy(0, MAX, 0, 0, 1)", BEYOND).finds("copy(0, 0, 0, MIN, 1)", BEYOND);
+        t.finds("copy(0, MAX, 0, 0, MAX)", BEYOND).finds("copy(0, 0, 0, MAX, MAX)", BEYOND)
+            .finds("copy(0, 1, 0, 1, MAX)", BEYOND);
+        t.finds("copy(0, MIN, 0, 0, MAX)", BEYOND).finds("copy(0, MAX, 0, 0, 1)", BEYOND)
+            .finds("copy(0, 0, 0, MIN, 1)", BEYOND);
     }
 
     static void promise06_nBelow0IsSize() {
-        rows(1, 2).finds("copy(0, 0, 0, 1, -1)", SIZE).finds("copy(0, 0, 0, 0, MIN)", SIZE).finds("copy(0, 2, 0, 2, -1)", SIZE);
+        rows(1, 2).finds("copy(0, 0, 0, 1, -1)", SIZE).finds("copy(0, 0, 0, 0, MIN)", SIZE)
+            .finds("copy(0, 2, 0, 2, -1)", SIZE);
     }
 
     static void promise06_sizeAheadOfNothingAheadOfBeyond() {
@@ -210,7 +237,8 @@ final class RowEdges {
     }
 
     static void promise06_eitherIsMissing() {
-        rows(1).finds("copy(0, 0, 1, 0, 1)", NOTHING).finds("copy(1, 0, 0, 0, 1)", NOTHING).finds("copy(1, 0, 2, 0, 0)", NOTHING)
+        rows(1).finds("copy(0, 0, 1, 0, 1)", NOTHING).finds("copy(1, 0, 0, 0, 1)", NOTHING)
+            .finds("copy(1, 0, 2, 0, 0)", NOTHING)
             .finds("copy(1, 0, 1, 0, 0)", NOTHING).finds("copy(0, 0, 1, 0, 0)", NOTHING);
     }
 
@@ -279,7 +307,8 @@ final class RowEdges {
     }
 
     static void promise08_nAbove120IsBad() {
-        new Trial().write(0, "ab").refuses("text(0, 121)", BAD).refuses("text(0, MAX)", BAD).refuses("text(1, 121)", BAD);
+        new Trial().write(0, "ab").refuses("text(0, 121)", BAD).refuses("text(0, MAX)", BAD)
+            .refuses("text(1, 121)", BAD);
     }
 
     static void promise08_nBelow0IsSize() {
@@ -291,7 +320,8 @@ final class RowEdges {
     }
 
     static void promise08_aTextAnewIsAllBlanks() {
-        Trial t = new Trial().write(0, "abc").says("text(0, 1)", 1).says("put(0, 0, 65)", 1032).finds("put(0, 1, 65)", BEYOND);
+        Trial t = new Trial().write(0, "abc").says("text(0, 1)", 1).says("put(0, 0, 65)", 1032)
+            .finds("put(0, 1, 65)", BEYOND);
         t.says("text(0, 3)", 3).says("put(0, 0, 1)", 1032).says("put(0, 1, 1)", 1032).says("put(0, 2, 1)", 1032);
         t.says("count(7)", 1);
     }
@@ -309,13 +339,16 @@ final class RowEdges {
 
     static void promise09_cutToAByte() {
         Trial t = new Trial().says("text(0, 1)", 1).says("put(0, 0, 128)", 1032);
-        t.says("put(0, 0, 255)", 872).says("put(0, 0, 256)", 999).says("put(0, 0, 257)", 1000).says("put(0, 0, -1)", 1001);
-        t.says("put(0, 0, -128)", 999).says("put(0, 0, -129)", 872).says("put(0, 0, MAX)", 1127).says("put(0, 0, MIN)", 999);
+        t.says("put(0, 0, 255)", 872).says("put(0, 0, 256)", 999).says("put(0, 0, 257)", 1000)
+            .says("put(0, 0, -1)", 1001);
+        t.says("put(0, 0, -128)", 999).says("put(0, 0, -129)", 872).says("put(0, 0, MAX)", 1127)
+            .says("put(0, 0, MIN)", 999);
         t.says("put(0, 0, 1)", 1000);
     }
 
     static void promise09_placesThatThereAreNot() {
-        new Trial().write(0, "ab").finds("put(0, 2, 1)", BEYOND).finds("put(0, -1, 1)", BEYOND).finds("put(0, MAX, 1)", BEYOND)
+        new Trial().write(0, "ab").finds("put(0, 2, 1)", BEYOND).finds("put(0, -1, 1)", BEYOND)
+            .finds("put(0, MAX, 1)", BEYOND)
             .finds("put(0, MIN, 1)", BEYOND).finds("put(0, 120, 1)", BEYOND);
     }
 

@@ -48,11 +48,12 @@ final class StateEdges {
     // ---- 18 person
 
     static void promise18_theHouseOrNone() {
-        Trial t = Trial.of(STREET).tells("person(0, 0)", 0).tells("person(1, 0)", 2).tells("person(2, 0)", NONE);
+        Trial.of(STREET).tells("person(0, 0)", 0).tells("person(1, 0)", 2).tells("person(2, 0)", NONE);
     }
 
     static void promise18_answers() {
-        Trial.of(STREET).tells("person(0, 1)", 12).tells("person(1, 1)", 0).tells("person(2, 1)", 3).tells("person(3, 1)", 7);
+        Trial.of(STREET).tells("person(0, 1)", 12).tells("person(1, 1)", 0).tells("person(2, 1)", 3)
+            .tells("person(3, 1)", 7);
     }
 
     static void promise18_keysThatHeHoldsLiveOrDead() {
@@ -83,6 +84,7 @@ final class StateEdges {
 
     static void promise19_itsHouse() {
         Trial.of(STREET, "m2>0c0>1m0>1x2").tells("key(0, 0)", 2).tells("key(1, 0)", 2).tells("key(2, 0)", 0);
+        Trial.of(STREET, "m2>0m1>0c1>0c0>0").tells("key(2, 0)", 1).tells("key(3, 0)", 2);
     }
 
     static void promise19_whetherItIsLive() {
@@ -90,9 +92,17 @@ final class StateEdges {
     }
 
     static void promise19_whereItIsAndByWhom() {
-        Trial t = Trial.of(STREET, "m0>3").tells("key(0, 2)", 0).tells("key(0, 3)", 3).years("l0@2").tells("key(0, 2)", 1);
+        Trial t = Trial.of(STREET, "m0>3").tells("key(0, 2)", 0).tells("key(0, 3)", 3).years("l0@2")
+            .tells("key(0, 2)", 1);
         t.tells("key(0, 3)", 2).years("i0@1").tells("key(0, 2)", 2).tells("key(0, 3)", 1);
-        t.years("l0@0").tells("key(0, 2)", 1).tells("key(0, 3)", 0).years("g0>0").tells("key(0, 2)", 0).tells("key(0, 3)", 0);
+        t.years("l0@0").tells("key(0, 2)", 1).tells("key(0, 3)", 0).years("g0>0").tells("key(0, 2)", 0)
+            .tells("key(0, 3)", 0);
+    }
+
+    static void promise19_eachKeyHasItsOwn() {
+        Trial t = Trial.of(STREET, "m0>3m1>1m2>0l1@2").tells("key(0, 3)", 3).tells("key(1, 3)", 2)
+            .tells("key(2, 3)", 0);
+        t.tells("key(0, 2)", 0).tells("key(1, 2)", 1).tells("key(1, 4)", 2).tells("key(2, 4)", 1);
     }
 
     static void promise19_whomItPassed() {

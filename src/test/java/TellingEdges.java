@@ -29,7 +29,8 @@ final class TellingEdges {
         asked20().tells("lay(1, 0, 9)", 4).tells("at(1, 1)", 8).tells("mean(1)", 8);
         asked20().tells("told(4, 3)", -1).tells("house(1, 0)", 5).tells("person(2, 0)", NONE).tells("key(2, 2)", 1);
         asked20().tells("trust(0, 1)", -1).tells("wake(0, 1, false)", 1, 2).tells("stuck()", 2, 2);
-        asked20().tells("suspects(0)", 2 + 4, 2 + 4).tells("copies(2, 0)", 0, 0).tells("dead(1)", 1, 2).tells("lost(0, 2)", 1, 20);
+        asked20().tells("suspects(0)", 2 + 4, 2 + 4).tells("copies(2, 0)", 0, 0).tells("dead(1)", 1, 2)
+            .tells("lost(0, 2)", 1, 20);
     }
 
     static void promise32_theLatest() {
@@ -38,7 +39,8 @@ final class TellingEdges {
 
     static void promise32_whatIsRefusedTellsNothing() {
         Trial t = asked20().says("lay(6, 0, 1)", BAD).says("lay(0, 0, 1)", -3).says("at(1, 2)", -3).says("mean(0)", -3);
-        t.says("row(2, 0)", 0).says("mean(2)", -3).says("told(6, 0)", BAD).says("house(2, 0)", BAD).says("person(3, 0)", BAD);
+        t.says("row(2, 0)", 0).says("mean(2)", -3).says("told(6, 0)", BAD).says("house(2, 0)", BAD)
+            .says("person(3, 0)", BAD);
         t.says("key(3, 0)", BAD).says("trust(0, 0)", BAD).says("wake(3, 0, true)", BAD).says("suspects(2)", BAD);
         t.says("copies(0, 0)", BAD).says("dead(2)", BAD).says("lost(3, 0)", BAD).says("asked()", 20);
     }
@@ -48,10 +50,13 @@ final class TellingEdges {
     }
 
     static void promise32_otherCallsTellNothing() {
-        Trial t = asked20().says("row(0, 3)", 3).says("copy(1, 0, 0, 0, 2)", 1).says("tear(0)", 1).says("text(3, 2)", 2);
+        Trial t = asked20().says("row(0, 3)", 3).says("copy(1, 0, 0, 0, 2)", 1).says("tear(0)", 1)
+            .says("text(3, 2)", 2);
         t.says("put(3, 0, 120)", 1032).says("put(3, 1, 48)", 1032).says("fault(3, true)", NONE);
-        t.says("year(3)", 1).says("event(6, 0, 0, true)", 7).says("back(6)", 2).says("mark(0, 1)", 0).says("alone(0)", 1);
-        t.says("odds(0, 1, false)", 1).says("soonest(0, 0, true)", 1).says("round(0, 1, true)", 1).says("safe(1, 9, 2)", NONE);
+        t.says("year(3)", 1).says("event(6, 0, 0, true)", 7).says("back(6)", 2).says("mark(0, 1)", 0)
+            .says("alone(0)", 1);
+        t.says("odds(0, 1, false)", 1).says("soonest(0, 0, true)", 1).says("round(0, 1, true)", 1)
+            .says("safe(1, 9, 2)", NONE);
         t.says("upper()", 7).says("lower()", 12).says("count(0)", 2).says("finding()", 0).says("findings(1)", 0);
         t.call("digest()");
         t.says("asked()", 20).says("street(0)", 2).says("safe(1, 9, 2)", NONE).says("asked()", 20);
@@ -81,17 +86,20 @@ final class TellingEdges {
     }
 
     static void promise33_refusedLeavesIt() {
-        Trial.of(STREET, YEAR).odds("odds(0, 1, false)", 1, 7, 12).refuses("odds(3, 0, true)", BAD).refuses("odds(0, 2, true)", BAD)
+        Trial.of(STREET, YEAR).odds("odds(0, 1, false)", 1, 7, 12).refuses("odds(3, 0, true)", BAD)
+            .refuses("odds(0, 2, true)", BAD)
             .says("upper()", 7);
     }
 
     static void promise34_refusedLeavesIt() {
-        Trial.of(STREET, YEAR).odds("odds(0, 1, false)", 1, 7, 12).refuses("odds(-1, 0, true)", BAD).refuses("odds(0, -1, true)", BAD)
+        Trial.of(STREET, YEAR).odds("odds(0, 1, false)", 1, 7, 12).refuses("odds(-1, 0, true)", BAD)
+            .refuses("odds(0, -1, true)", BAD)
             .says("lower()", 12);
     }
 
     static void promise33_aNewStreetLeavesIt() {
-        Trial t = Trial.of(STREET, YEAR).odds("odds(0, 1, false)", 1, 7, 12).says("street(0)", 2).says("upper()", 7).says("lower()", 12);
+        Trial.of(STREET, YEAR).odds("odds(0, 1, false)", 1, 7, 12).says("street(0)", 2).says("upper()", 7)
+            .says("lower()", 12);
     }
 
     // ---- 35 count
@@ -124,7 +132,8 @@ final class TellingEdges {
 
     static void promise35_rowsAndTextsThatAreThere() {
         Trial t = new Trial().says("row(0, 0)", 0).says("row(5, 1)", 1).says("row(5, 2)", 2).says("count(6)", 2);
-        t.says("tear(5)", 1).says("count(6)", 1).says("text(3, 0)", 0).says("count(7)", 1).says("text(3, 5)", 5).says("count(7)", 1);
+        t.says("tear(5)", 1).says("count(6)", 1).says("text(3, 0)", 0).says("count(7)", 1).says("text(3, 5)", 5)
+            .says("count(7)", 1);
     }
 
     static void promise35_noSuchWhat() {
@@ -139,8 +148,10 @@ final class TellingEdges {
     }
 
     static void promise36_theLatest() {
-        Trial t = new Trial().says("row(0, 0)", 0).says("tear(1)", -3).says("finding()", 1).says("at(0, 0)", -3).says("finding()", 2);
-        t.says("mean(0)", -3).says("finding()", 4).says("row(0, -1)", -3).says("finding()", 5).says("tear(1)", -3).says("finding()", 1);
+        Trial t = new Trial().says("row(0, 0)", 0).says("tear(1)", -3).says("finding()", 1).says("at(0, 0)", -3)
+            .says("finding()", 2);
+        t.says("mean(0)", -3).says("finding()", 4).says("row(0, -1)", -3).says("finding()", 5).says("tear(1)", -3)
+            .says("finding()", 1);
     }
 
     static void promise36_justFindingsChangeIt() {
@@ -169,12 +180,14 @@ final class TellingEdges {
     }
 
     static void promise37_oneFindingACall() {
-        new Trial().finds("copy(0, -1, 1, -1, -1)", SIZE).finds("copy(0, -1, 1, -1, 1)", NOTHING).finds("copy(0, 1, 0, 1, 1)", NOTHING);
+        new Trial().finds("copy(0, -1, 1, -1, -1)", SIZE).finds("copy(0, -1, 1, -1, 1)", NOTHING)
+            .finds("copy(0, 1, 0, 1, 1)", NOTHING);
         new Trial().says("row(0, 0)", 0).finds("copy(0, 1, 0, 1, 1)", BEYOND).finds("mean(0)", NOUGHT);
     }
 
     static void promise37_otherRefusalsAreNotCounted() {
-        Trial t = Trial.of(STREET, YEAR).says("tear(6)", BAD).says("wake(1, 1, false)", NONE).write(2, "?").says("year(2)", STATE);
+        Trial t = Trial.of(STREET, YEAR).says("tear(6)", BAD).says("wake(1, 1, false)", NONE).write(2, "?")
+            .says("year(2)", STATE);
         for (int f = 1; f <= 5; f++) {
             t.says("findings(" + f + ")", 0);
         }
@@ -185,7 +198,8 @@ final class TellingEdges {
     }
 
     static void promise37_aNewStreetLeavesThem() {
-        Trial.of(STREET, YEAR).finds("tear(0)", NOTHING).says("street(0)", 2).says("findings(1)", 1).says("finding()", 1);
+        Trial.of(STREET, YEAR).finds("tear(0)", NOTHING).says("street(0)", 2).says("findings(1)", 1)
+            .says("finding()", 1);
     }
 
     // ---- 38 digest
@@ -260,7 +274,8 @@ final class TellingEdges {
     static void promise38_ofAll() {
         String street = "h9p0:12h8p-:3p1:7";
         String year = "m1>0c0>2x1l0@0i1@1q0/2f1/0m0>1";
-        Trial t = Trial.of(street, year).row(2, 5, Integer.MIN_VALUE, Integer.MAX_VALUE).row(5, -1).says("row(0, 0)", 0);
+        Trial t = Trial.of(street, year).row(2, 5, Integer.MIN_VALUE, Integer.MAX_VALUE).row(5, -1)
+            .says("row(0, 0)", 0);
         long want = digestOf(t, new int[] {0, -1, 3, -1, -1, 1}, new int[][] {signs(street), signs(year), null, null});
         t.says("digest()", want).says("digest()", want);
     }
@@ -276,11 +291,13 @@ final class TellingEdges {
 
     static void promise38_bytesBelow0() {
         Trial t = new Trial().says("text(3, 3)", 3).says("put(3, 0, 200)", 1032).says("put(3, 2, 128)", 1032);
-        t.says("digest()", digestOf(t, new int[] {-1, -1, -1, -1, -1, -1}, new int[][] {null, null, null, {-56, 32, -128}}));
+        t.says("digest()", digestOf(t, new int[] {-1, -1, -1, -1, -1, -1}, new int[][] {null, null, null, {-56, 32,
+            -128}}));
     }
 
     static void promise38_aFullRowAndText() {
-        Trial t = new Trial().says("row(0, 40)", 40).tells("lay(0, 39, 77)", 0).says("text(0, 120)", 120).says("put(0, 119, 65)", 1032);
+        Trial t = new Trial().says("row(0, 40)", 40).tells("lay(0, 39, 77)", 0).says("text(0, 120)", 120)
+            .says("put(0, 119, 65)", 1032);
         int[] text = new int[120];
         java.util.Arrays.fill(text, 32);
         text[119] = 65;

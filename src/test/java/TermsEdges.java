@@ -16,6 +16,15 @@ final class TermsEdges {
         return t.tells("house(0, 0)", 20);
     }
 
+    static void terms_numbersOfRefusals() {
+        int[] got = {StreetKeys.BAD, StreetKeys.FULL, StreetKeys.FINDING, StreetKeys.STATE, StreetKeys.SPENT,
+            StreetKeys.NONE};
+        int[] due = {-1, -2, -3, -4, -6, -9};
+        for (int i = 0; i < due.length; i++) {
+            EdgeTest.due.is("constant " + i, got[i], due[i]);
+        }
+    }
+
     // ---- the order in which a call is refused
 
     static void terms_badAheadOfFull() {
@@ -47,7 +56,8 @@ final class TermsEdges {
     }
 
     static void terms_aYearThatIsTooLongIsStateNotFull() {
-        Trial.of("h1p0:1", "x0".repeat(40)).write(2, "x0").refuses("year(2)", STATE).refuses("event(6, 0, 0, true)", FULL);
+        Trial.of("h1p0:1", "x0".repeat(40)).write(2, "x0").refuses("year(2)", STATE)
+            .refuses("event(6, 0, 0, true)", FULL);
         Trial.of("h1p0:1", "m0>0".repeat(24)).write(2, "m0>0").refuses("year(2)", STATE);
     }
 

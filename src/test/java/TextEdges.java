@@ -288,6 +288,12 @@ final class TextEdges {
         t.says("back(0)", 1).yearFault("g0>1", 2);
     }
 
+    static void terms1_justMadeAndCopyBringAKey() {
+        years(4, "x0g1>0", "x1c1>0");
+        years(6, "g0>1g1>0", "l0@0l1@0", "i0@0i1@0", "q0/1c1>0", "f0/1g1>0");
+        years(NONE, "m0>0g1>0", "c0>0g1>0");
+    }
+
     static void terms1_aAndBAreUnlike() {
         years(4, "q0/0", "f1/1", "q2/2", "q0/0x0");
         years(5, "q0/00", "f01/1", "q02/2");

@@ -174,7 +174,8 @@ final class Trial {
     /** A FAULT of a STREET, and street() that goes by it. */
     static void streetFault(String signs, int place) {
         Trial t = new Trial().write(2, signs).says("fault(2, false)", place);
-        EdgeTest.due.is("street of '" + signs + "' refused", t.call("street(2)") == STATE ? 1 : 0, place == NONE ? 0 : 1);
+        EdgeTest.due.is("street of '" + signs + "' refused", t.call("street(2)") == STATE ? 1 : 0,
+            place == NONE ? 0 : 1);
     }
 
     /** A FAULT of a YEAR behind all EVENTS that there are, and year() that goes by it. */
