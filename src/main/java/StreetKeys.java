@@ -1380,7 +1380,7 @@ public final class StreetKeys {
             }
             for (int p = 0; p < street.persons; p++) {
                 int home = street.homeOf(p);
-                if (home >= 0 && home < HOUSES) {
+                if (isPlace(home)) {
                     lived |= 1 << home;
                     holds[home] |= present.opens(HELD, p);
                     findHostile(street, present, p, home);
@@ -1391,10 +1391,14 @@ public final class StreetKeys {
             }
         }
 
+        private static boolean isPlace(int h) {
+            return h >= 0 && h < HOUSES;
+        }
+
         private void findHostile(Street street, Present present, int p, int home) {
             for (int q = 0; q < street.persons; q++) {
                 int other = street.homeOf(q);
-                if (other >= 0 && other < HOUSES && present.trustOf(p, q) < 0) {
+                if (isPlace(home) && isPlace(other) && present.trustOf(p, q) < 0) {
                     hostile[home] |= 1 << other;
                     hostile[other] |= 1 << home;
                 }
@@ -1402,6 +1406,9 @@ public final class StreetKeys {
         }
 
         private void findNeed(int h, int lived, int due) {
+            if (!isPlace(h)) {
+                return;
+            }
             needs[h] = 0;
             takers[h] = 0;
             if (!has(lived, h)) {
@@ -1441,6 +1448,9 @@ public final class StreetKeys {
 
         /** Gives KEYS of a HOUSE to the first set that leaves enough for all HOUSES behind it. */
         private boolean giveFirst(int h) {
+            if (!isPlace(h)) {
+                return false;
+            }
             for (int set = 0; set <= takers[h]; set++) {
                 boolean fits = (set & ~takers[h]) == 0 && Integer.bitCount(set) == needs[h];
                 if (fits && haveRoom(set)) {

@@ -1,52 +1,248 @@
+import com.sun.source.tree.ArrayAccessTree;
+import com.sun.source.tree.AssertTree;
+import com.sun.source.tree.BinaryTree;
+import com.sun.source.tree.BlockTree;
+import com.sun.source.tree.ClassTree;
+import com.sun.source.tree.CompoundAssignmentTree;
+import com.sun.source.tree.ConditionalExpressionTree;
+import com.sun.source.tree.DoWhileLoopTree;
+import com.sun.source.tree.EnhancedForLoopTree;
+import com.sun.source.tree.ExpressionTree;
+import com.sun.source.tree.ForLoopTree;
+import com.sun.source.tree.IdentifierTree;
+import com.sun.source.tree.IfTree;
+import com.sun.source.tree.InstanceOfTree;
+import com.sun.source.tree.LambdaExpressionTree;
+import com.sun.source.tree.LiteralTree;
+import com.sun.source.tree.MemberReferenceTree;
+import com.sun.source.tree.MemberSelectTree;
+import com.sun.source.tree.MethodInvocationTree;
+import com.sun.source.tree.MethodTree;
+import com.sun.source.tree.NewArrayTree;
+import com.sun.source.tree.NewClassTree;
+import com.sun.source.tree.SynchronizedTree;
+import com.sun.source.tree.ThrowTree;
+import com.sun.source.tree.Tree;
+import com.sun.source.tree.TryTree;
+import com.sun.source.tree.TypeCastTree;
+import com.sun.source.tree.UnaryTree;
+import com.sun.source.tree.VariableTree;
+import com.sun.source.tree.WhileLoopTree;
+import com.sun.source.util.TreePath;
 import java.io.IOException;
 import java.lang.reflect.Constructor;
 import java.lang.reflect.Field;
 import java.lang.reflect.Method;
-import java.lang.reflect.Modifier;
 import java.nio.file.Files;
 import java.nio.file.Path;
 import java.util.Arrays;
 import java.util.IdentityHashMap;
+import java.util.List;
 import java.util.Map;
 import java.util.Set;
-import java.util.TreeMap;
 import java.util.TreeSet;
-import java.util.regex.Matcher;
-import java.util.regex.Pattern;
+import javax.lang.model.element.Element;
+import javax.lang.model.element.ElementKind;
+import javax.lang.model.element.ExecutableElement;
+import javax.lang.model.element.Modifier;
+import javax.lang.model.element.VariableElement;
+import javax.lang.model.type.TypeMirror;
 
-/** What of LANGUAGE.md can be seen from outside: the face, words that are ruled out, sizes. */
+/**
+ * LANGUAGE.md, rule by rule, by the compiler's tree of the program. Where a rule allows more than the
+ * program uses, the test is the stricter one: what it holds to is seen at once.
+ */
 public final class LanguageTest {
     private static final Due due = new Due("LanguageTest");
+    private static final Path FILE = Path.of("src/main/java/StreetKeys.java");
     private static final String FACE = "row(II)I lay(III)I at(II)I tear(I)I copy(IIIII)I mean(I)I text(II)I "
         + "put(III)I fault(IZ)I street(I)I year(I)I event(IIIZ)I back(I)I told(II)I mark(II)I house(II)I "
         + "person(II)I key(II)I trust(II)I alone(I)I wake(IIZ)I odds(IIZ)I soonest(IIZ)I round(IIZ)I stuck()I "
         + "safe(III)I suspects(I)I copies(II)I dead(I)I lost(II)I asked()I upper()J lower()J count(I)I "
         + "finding()I findings(I)I digest()J";
-    private static final String[] RULED_OUT = {"throw", "try", "catch", "synchronized", "assert", "import",
-        "->", "::", "instanceof", "System.nanoTime", "System.currentTimeMillis", "Random", "Exact", "float",
-        "double", "yield", "volatile", "native"};
+    private static final Set<String> LIBRARY = Set.of("java.lang.Math.max", "java.lang.Math.min",
+        "java.lang.Integer.bitCount", "java.lang.System.arraycopy");
+    private static final Set<String> PLAIN_TYPES = Set.of("int", "long", "boolean", "byte", "int[]", "void");
+
+    /** Methods that look at a number before it is an index. */
+    private static final String LOOKS = "(knows|isKey|spans|isPlace|arePersons)";
+
+    private static SourceTree tree;
+    private static String source;
 
     public static void main(String[] args) throws IOException {
-        due.promise(1, "the face");
-        face();
-        due.promise(0, "LANGUAGE.md");
-        String source = Files.readString(Path.of("src/main/java/StreetKeys.java"));
-        String code = source.replaceAll("(?s)/\\*.*?\\*/", " ").replaceAll("//[^\n]*", " ");
-        words(code);
-        objectsOnlyWithTheObject(code);
-        methodsAreShort(source);
-        callsAreFlat(code);
-        signs(source, code);
-        libraryCalls(code);
-        divisors(code);
-        fieldTypes();
-        room();
+        Path file = args.length > 0 ? Path.of(args[0]) : FILE;
+        tree = new SourceTree(file);
+        source = Files.readString(file);
+        rule01TheFace();
+        rule02ClassesInside();
+        rule03Types();
+        rule04Library();
+        rule05StaticFields();
+        rule06RuledOut();
+        rule07Divisors();
+        rule07Indexes();
+        rule07References();
+        rule08NoRecursion();
+        rule09Loops();
+        rule10Texts();
+        rule11Sizes();
+        rule12ObjectsWithTheObject();
+        rule12Room();
+        rule13SameAnswers();
         due.end();
     }
 
-    /** Rules 3 and 4: no text is used, and nothing but plain signs stands in the file. */
-    private static void signs(String source, String code) {
-        due.is("rule 4: texts in the program", code.indexOf('"'), -1);
+    private static void none(Class<? extends Tree> kind) {
+        List<TreePath> found = tree.all(kind);
+        due.is(kind.getSimpleName() + " in the program", found.size(), 0);
+        for (TreePath p : found) {
+            due.fail(tree.where(p));
+        }
+    }
+
+    // ---- 1
+
+    private static void rule01TheFace() {
+        due.name("rule 1");
+        due.is("package", tree.unit.getPackageName() == null ? 0 : 1, 0);
+        due.is("types of the file", tree.unit.getTypeDecls().size(), 1);
+        Class<?> c = StreetKeys.class;
+        due.is("public and final", c.getModifiers(),
+            java.lang.reflect.Modifier.PUBLIC | java.lang.reflect.Modifier.FINAL);
+        Set<String> open = new TreeSet<>();
+        for (Method m : c.getDeclaredMethods()) {
+            if (java.lang.reflect.Modifier.isPublic(m.getModifiers())) {
+                open.add(signature(m));
+            }
+        }
+        if (!open.equals(new TreeSet<>(Arrays.asList(FACE.split(" "))))) {
+            due.fail("public methods are " + open);
+        }
+        for (Constructor<?> k : c.getDeclaredConstructors()) {
+            due.is("parameters of " + k, k.getParameterCount(), 0);
+            due.is(k + " is public", k.getModifiers(), java.lang.reflect.Modifier.PUBLIC);
+        }
+        constants();
+        membersAreHidden();
+    }
+
+    private static String signature(Method m) {
+        StringBuilder s = new StringBuilder(m.getName()).append('(');
+        for (Class<?> p : m.getParameterTypes()) {
+            s.append(p.descriptorString());
+        }
+        return s.append(')').append(m.getReturnType().descriptorString()).toString();
+    }
+
+    private static void constants() {
+        int[] got = {StreetKeys.BAD, StreetKeys.FULL, StreetKeys.FINDING, StreetKeys.STATE, StreetKeys.SPENT,
+            StreetKeys.NONE};
+        int[] want = {-1, -2, -3, -4, -6, -9};
+        for (int i = 0; i < want.length; i++) {
+            due.is("constant " + i, got[i], want[i]);
+        }
+    }
+
+    /** No member but those of the document is seen, and no other method bears the name of one. */
+    private static void membersAreHidden() {
+        Set<String> names = new TreeSet<>();
+        for (String call : FACE.split(" ")) {
+            names.add(call.substring(0, call.indexOf('(')));
+        }
+        Set<String> told = Set.of("BAD", "FULL", "FINDING", "STATE", "SPENT", "NONE");
+        for (TreePath p : tree.places) {
+            boolean named = p.getLeaf() instanceof MethodTree || p.getLeaf() instanceof VariableTree;
+            Element e = named ? tree.element(p) : null;
+            if (e == null || !e.getEnclosingElement().getKind().isClass()) {
+                continue;
+            }
+            boolean outer = e.getEnclosingElement().getSimpleName().contentEquals("StreetKeys");
+            boolean open = e.getModifiers().contains(Modifier.PUBLIC);
+            boolean closed = e.getModifiers().contains(Modifier.PRIVATE);
+            String name = e.getSimpleName().toString();
+            boolean constructor = e.getKind() == ElementKind.CONSTRUCTOR;
+            boolean ofTheFace = outer && (constructor || told.contains(name) || names.contains(name));
+            if (outer && !(ofTheFace && (open || e.getKind() == ElementKind.FIELD) || closed)) {
+                due.fail(e + " is seen from outside");
+            }
+            if (e instanceof ExecutableElement && names.contains(name) && !(outer && open)) {
+                due.fail(e + " bears the name of a public method");
+            }
+            if (outer && e.getKind() == ElementKind.FIELD && open != told.contains(name)) {
+                due.fail("field " + e);
+            }
+        }
+    }
+
+    // ---- 2
+
+    private static void rule02ClassesInside() {
+        due.name("rule 2");
+        none(LambdaExpressionTree.class);
+        none(MemberReferenceTree.class);
+        for (TreePath p : tree.all(ClassTree.class)) {
+            Element e = tree.element(p);
+            due.is(e + " is a plain class", p.getLeaf().getKind() == Tree.Kind.CLASS ? 1 : 0, 1);
+            if (p.getParentPath().getLeaf() != tree.unit) {
+                due.is(e + " stands in a class", p.getParentPath().getLeaf() instanceof ClassTree ? 1 : 0, 1);
+                due.is(e + " is static", e.getModifiers().contains(Modifier.STATIC) ? 1 : 0, 1);
+                due.is(e + " is private", e.getModifiers().contains(Modifier.PRIVATE) ? 1 : 0, 1);
+            }
+        }
+        for (TreePath p : tree.all(NewClassTree.class)) {
+            due.is(tree.where(p) + " has a body", ((NewClassTree) p.getLeaf()).getClassBody() == null ? 0 : 1, 0);
+        }
+    }
+
+    // ---- 3
+
+    private static void rule03Types() {
+        due.name("rule 3");
+        int seen = 0;
+        for (TreePath p : tree.places) {
+            Tree leaf = p.getLeaf();
+            if (leaf instanceof VariableTree || leaf instanceof NewArrayTree || leaf instanceof NewClassTree
+                    || leaf instanceof TypeCastTree) {
+                isAllowed(p, tree.type(p));
+                seen++;
+            }
+            if (leaf instanceof MethodTree) {
+                isAllowed(p, ((ExecutableElement) tree.element(p)).getReturnType());
+                seen++;
+            }
+        }
+        due.is("enough types seen", seen > 300 ? 1 : 0, 1);
+    }
+
+    private static void isAllowed(TreePath p, TypeMirror type) {
+        if (!PLAIN_TYPES.contains(type.toString()) && !type.toString().matches("StreetKeys(\\.\\w+)?")) {
+            due.fail(type + ", " + tree.where(p));
+        }
+    }
+
+    // ---- 4
+
+    private static void rule04Library() {
+        due.name("rule 4");
+        due.is("imports", tree.unit.getImports().size(), 0);
+        for (TreePath p : tree.all(MethodInvocationTree.class)) {
+            Element called = tree.element(p);
+            Element owner = called.getEnclosingElement();
+            if (!tree.isOwn(owner) && !LIBRARY.contains(owner + "." + called.getSimpleName())) {
+                due.fail(owner + "." + called + ", " + tree.where(p));
+            }
+        }
+        for (TreePath p : tree.all(MemberSelectTree.class)) {
+            Element e = tree.element(p);
+            boolean length = ((MemberSelectTree) p.getLeaf()).getIdentifier().contentEquals("length");
+            if (e.getKind() == ElementKind.FIELD && !length && !tree.isOwn(e.getEnclosingElement())) {
+                due.fail("field " + tree.where(p));
+            }
+        }
+        for (TreePath p : tree.all(NewClassTree.class)) {
+            due.is(tree.where(p) + " is an own class", tree.isOwn(tree.element(p).getEnclosingElement()) ? 1 : 0, 1);
+        }
         for (int i = 0; i < source.length(); i++) {
             char c = source.charAt(i);
             if (c != '\n' && (c < 32 || c > 126)) {
@@ -55,58 +251,247 @@ public final class LanguageTest {
         }
     }
 
-    /** Rule 4: of the library just what is listed. */
-    private static void libraryCalls(String code) {
-        Set<String> listed = Set.of("Math.max", "Math.min", "Integer.bitCount", "System.arraycopy", "Log.makesKey",
-            "Log.isOfKind");
-        Matcher m = Pattern.compile("\\b[A-Z][a-z]\\w*\\.\\w+").matcher(code);
-        while (m.find()) {
-            if (!listed.contains(m.group())) {
-                due.fail("rule 4: " + m.group());
-            }
-        }
-    }
+    // ---- 5
 
-    /** Rule 7: a divisor is a constant above 0, or one that its own lines have looked at. */
-    private static void divisors(String code) {
-        Set<String> lookedAt = Set.of("size", "common", "y");
-        Matcher m = Pattern.compile("[^ ]+ [/%]=? (\\(?\\w+)").matcher(code);
+    private static void rule05StaticFields() {
+        due.name("rule 5");
         int seen = 0;
-        while (m.find()) {
-            seen++;
-            String by = m.group(1).replace("(", "");
-            if (!by.equals("SETS") && !lookedAt.contains(by)) {
-                due.fail("rule 7: " + m.group());
+        for (TreePath p : tree.all(VariableTree.class)) {
+            Element e = tree.element(p);
+            if (e.getModifiers().contains(Modifier.STATIC)) {
+                seen++;
+                due.is(e + " is final", e.getModifiers().contains(Modifier.FINAL) ? 1 : 0, 1);
+                due.is(e + " is a constant", ((VariableElement) e).getConstantValue() instanceof Integer ? 1 : 0, 1);
             }
         }
-        due.is("divisors seen", seen > 5 ? 1 : 0, 1);
-    }
-
-    /** Rules 2, 3 and 5: what fields there are. */
-    private static void fieldTypes() {
-        fieldTypes(StreetKeys.class);
-        for (Class<?> inside : StreetKeys.class.getDeclaredClasses()) {
-            fieldTypes(inside);
-            boolean plain = !inside.isInterface() && !inside.isEnum() && !inside.isRecord();
-            due.is(inside + " is a plain class", plain ? 1 : 0, 1);
+        due.is("enough constants seen", seen > 30 ? 1 : 0, 1);
+        for (TreePath p : tree.all(BlockTree.class)) {
+            due.is("blocks outside methods", p.getParentPath().getLeaf() instanceof ClassTree ? 1 : 0, 0);
         }
     }
 
-    private static void fieldTypes(Class<?> c) {
-        for (Field f : c.getDeclaredFields()) {
-            Class<?> type = f.getType();
-            boolean number = type == int.class || type == long.class || type == boolean.class;
-            if (Modifier.isStatic(f.getModifiers()) && !(number && Modifier.isFinal(f.getModifiers()))) {
-                due.fail("rule 5: " + f);
-            }
-            if (!number && type != int[].class && type.getEnclosingClass() != StreetKeys.class) {
-                due.fail("rule 3: " + f);
+    // ---- 6
+
+    private static void rule06RuledOut() {
+        due.name("rule 6");
+        none(ThrowTree.class);
+        none(TryTree.class);
+        none(SynchronizedTree.class);
+        none(AssertTree.class);
+        none(InstanceOfTree.class);
+        for (TreePath p : tree.all(MethodTree.class)) {
+            String name = ((MethodTree) p.getLeaf()).getName().toString();
+            due.is(name + " of an own object", Set.of("equals", "hashCode", "toString").contains(name) ? 1 : 0, 0);
+            due.is(name + " throws", ((MethodTree) p.getLeaf()).getThrows().size(), 0);
+        }
+        for (TreePath p : tree.all(TypeCastTree.class)) {
+            due.is(tree.where(p) + " of numbers", tree.type(p).getKind().isPrimitive() ? 1 : 0, 1);
+        }
+        for (TreePath p : tree.all(BinaryTree.class)) {
+            BinaryTree b = (BinaryTree) p.getLeaf();
+            if (b.getKind() == Tree.Kind.EQUAL_TO || b.getKind() == Tree.Kind.NOT_EQUAL_TO) {
+                boolean plain = tree.type(p, b.getLeftOperand()).getKind().isPrimitive()
+                    && tree.type(p, b.getRightOperand()).getKind().isPrimitive();
+                due.is(tree.where(p) + " of numbers", plain ? 1 : 0, 1);
             }
         }
     }
 
-    /** Rule 12: what an object holds is small, and no call makes it hold more. */
-    private static void room() {
+    // ---- 7
+
+    /** A divisor is a constant above 0, or one that the lines ahead of it have looked at. */
+    private static void rule07Divisors() {
+        due.name("rule 7");
+        Set<String> lookedAt = Set.of("mean size", "commonDivisor y", "tellFraction common");
+        int seen = 0;
+        for (TreePath p : tree.places) {
+            Tree leaf = p.getLeaf();
+            Tree.Kind kind = leaf.getKind();
+            ExpressionTree by = null;
+            if (kind == Tree.Kind.DIVIDE || kind == Tree.Kind.REMAINDER) {
+                by = ((BinaryTree) leaf).getRightOperand();
+            } else if (kind == Tree.Kind.DIVIDE_ASSIGNMENT || kind == Tree.Kind.REMAINDER_ASSIGNMENT) {
+                by = ((CompoundAssignmentTree) leaf).getExpression();
+            }
+            if (by != null) {
+                seen++;
+                String name = tree.element(tree.enclosing(p, MethodTree.class)).getSimpleName() + " " + by;
+                boolean constant = by.toString().matches("SETS|\\(?SETS \\* SETS\\)?");
+                due.is(tree.where(p) + " is looked at", constant || lookedAt.contains(name) ? 1 : 0, 1);
+            }
+        }
+        due.is("enough divisors seen", seen > 5 ? 1 : 0, 1);
+    }
+
+    /** Each name within an index is compared, or asked for by a method that compares it, ahead of its use. */
+    private static void rule07Indexes() {
+        List<TreePath> uses = tree.all(ArrayAccessTree.class);
+        due.is("enough indexes seen", uses.size() > 100 ? 1 : 0, 1);
+        for (TreePath use : uses) {
+            String ahead = conditionsAhead(use);
+            ArrayAccessTree access = (ArrayAccessTree) use.getLeaf();
+            for (TreePath p : tree.inside(access.getIndex())) {
+                Element e = p.getLeaf() instanceof IdentifierTree ? tree.element(p) : null;
+                if (e instanceof VariableElement && !(e.getKind() == ElementKind.FIELD
+                        && e.getModifiers().contains(Modifier.FINAL))) {
+                    String looks = "(?s).*((?<![\\w.\\[])NAME (<|>=).*|" + LOOKS + "\\([^()]*\\bNAME\\b.*)";
+                    boolean lookedAt = ahead.matches(looks.replace("NAME", e.getSimpleName()));
+                    due.is(e + " is looked at, " + tree.where(use), lookedAt ? 1 : 0, 1);
+                }
+            }
+        }
+    }
+
+    /** All conditions of a method up to the line of a use. */
+    private static String conditionsAhead(TreePath use) {
+        StringBuilder all = new StringBuilder();
+        for (TreePath p : tree.inside(tree.enclosing(use, MethodTree.class).getLeaf())) {
+            Tree condition = null;
+            if (p.getLeaf() instanceof ForLoopTree loop) {
+                condition = loop.getCondition();
+            } else if (p.getLeaf() instanceof IfTree test) {
+                condition = test.getCondition();
+            } else if (p.getLeaf() instanceof ConditionalExpressionTree choice) {
+                condition = choice.getCondition();
+            } else if (p.getLeaf().getKind() == Tree.Kind.CONDITIONAL_AND) {
+                condition = ((BinaryTree) p.getLeaf()).getLeftOperand();
+            }
+            if (condition != null && tree.lineOf(condition) <= tree.lineOf(use.getLeaf())) {
+                all.append(condition).append('\n');
+            }
+        }
+        return all.toString();
+    }
+
+    /** No reference is ever null: there is no null in the program, and each is set as the object is made. */
+    private static void rule07References() {
+        for (TreePath p : tree.all(LiteralTree.class)) {
+            due.is(tree.where(p), p.getLeaf().getKind() == Tree.Kind.NULL_LITERAL ? 1 : 0, 0);
+            due.is("texts", p.getLeaf().getKind() == Tree.Kind.STRING_LITERAL ? 1 : 0, 0);
+        }
+        count(new StreetKeys(), new IdentityHashMap<>(), new long[2]);
+    }
+
+    // ---- 8
+
+    private static void rule08NoRecursion() {
+        due.name("rule 8");
+        for (ExecutableElement from : tree.calls.keySet()) {
+            due.is(from + " goes on for ever", depth(from, 0) > tree.calls.size() ? 1 : 0, 0);
+        }
+    }
+
+    /** How many calls stand open at once, counted up to one more than there are methods. */
+    private static int depth(ExecutableElement from, int open) {
+        int deepest = 1;
+        if (open > tree.calls.size()) {
+            return 1;
+        }
+        for (ExecutableElement to : tree.calls.get(from)) {
+            deepest = Math.max(deepest, 1 + depth(to, open + 1));
+        }
+        return deepest;
+    }
+
+    // ---- 9
+
+    /** Every loop counts up by one against a bound, and nothing else changes its counter. */
+    private static void rule09Loops() {
+        due.name("rule 9");
+        none(WhileLoopTree.class);
+        none(DoWhileLoopTree.class);
+        none(EnhancedForLoopTree.class);
+        List<TreePath> loops = tree.all(ForLoopTree.class);
+        due.is("enough loops seen", loops.size() > 40 ? 1 : 0, 1);
+        for (TreePath p : loops) {
+            ForLoopTree loop = (ForLoopTree) p.getLeaf();
+            boolean counts = loop.getInitializer().size() == 1 && loop.getInitializer().get(0) instanceof VariableTree
+                && loop.getUpdate().size() == 1;
+            if (!counts) {
+                due.fail("a loop without a counter, " + tree.where(p));
+                continue;
+            }
+            String counter = ((VariableTree) loop.getInitializer().get(0)).getName().toString();
+            due.is(tree.where(p) + " counts up", loop.getUpdate().get(0).toString().equals(counter + "++;") ? 1 : 0, 1);
+            String bound = "" + loop.getCondition();
+            due.is(tree.where(p) + " has a bound", bound.matches("\\(?" + counter + " <=? .*") ? 1 : 0, 1);
+            due.is(tree.where(p) + " has no way around it", bound.contains("||") ? 1 : 0, 0);
+            due.is(tree.where(p) + " leaves its counter", changes(loop.getStatement(), counter), 0);
+        }
+    }
+
+    private static int changes(Tree body, String name) {
+        int changes = 0;
+        for (TreePath p : tree.inside(body)) {
+            String text = p.getLeaf().toString();
+            boolean assigns = p.getLeaf() instanceof CompoundAssignmentTree
+                || p.getLeaf().getKind() == Tree.Kind.ASSIGNMENT;
+            boolean steps = p.getLeaf() instanceof UnaryTree && text.matches("(\\+\\+|--).*|.*(\\+\\+|--)");
+            if (assigns && text.startsWith(name + " ") || steps && text.matches("\\W*" + name + "\\W*")) {
+                changes++;
+            }
+        }
+        return changes;
+    }
+
+    // ---- 10
+
+    private static void rule10Texts() {
+        due.name("rule 10");
+        for (TreePath p : tree.all(IdentifierTree.class)) {
+            due.is(tree.where(p), Set.of("String", "StringBuilder").contains(p.getLeaf().toString()) ? 1 : 0, 0);
+        }
+    }
+
+    // ---- 11
+
+    private static void rule11Sizes() {
+        due.name("rule 11");
+        List<TreePath> methods = tree.all(MethodTree.class);
+        due.is("enough methods seen", methods.size() > 100 ? 1 : 0, 1);
+        for (TreePath p : methods) {
+            MethodTree m = (MethodTree) p.getLeaf();
+            due.is(m.getName() + " takes seven at most", m.getParameters().size() <= 7 ? 1 : 0, 1);
+            due.is(m.getName() + " is short", tree.lastLineOf(m) - tree.lineOf(m) < 60 ? 1 : 0, 1);
+        }
+        for (ExecutableElement from : tree.calls.keySet()) {
+            due.is(from + " calls eight deep at most", depth(from, 0) <= 8 ? 1 : 0, 1);
+        }
+        List<TreePath> classes = tree.all(ClassTree.class);
+        due.is("twelve classes at most", classes.size() <= 12 ? 1 : 0, 1);
+        for (TreePath p : classes) {
+            int fields = 0;
+            for (Element e : tree.element(p).getEnclosedElements()) {
+                fields += e.getKind() == ElementKind.FIELD && !e.getModifiers().contains(Modifier.STATIC) ? 1 : 0;
+            }
+            due.is(tree.element(p) + " has twenty fields at most", fields <= 20 ? 1 : 0, 1);
+        }
+    }
+
+    // ---- 12
+
+    private static void rule12ObjectsWithTheObject() {
+        due.name("rule 12");
+        int seen = 0;
+        for (TreePath p : tree.places) {
+            if (p.getLeaf() instanceof NewClassTree || p.getLeaf() instanceof NewArrayTree) {
+                seen++;
+                TreePath method = tree.enclosing(p, MethodTree.class);
+                boolean inCall = method != null && tree.element(method).getKind() != ElementKind.CONSTRUCTOR;
+                due.is(tree.where(p) + " in a call", inCall ? 1 : 0, 0);
+                due.is(tree.where(p) + " in a loop", tree.enclosing(p, ForLoopTree.class) != null ? 1 : 0, 0);
+            }
+        }
+        due.is("enough seen that is made", seen > 20 ? 1 : 0, 1);
+        for (ExecutableElement from : tree.calls.keySet()) {
+            if (from.getKind() == ElementKind.CONSTRUCTOR) {
+                due.is(from.getEnclosingElement() + "'s constructor calls", tree.calls.get(from).size(), 0);
+            }
+        }
+    }
+
+    /** What an object holds is small, and no call makes it hold more. */
+    private static void rule12Room() {
         String street = "h9h20h3h1h2h5p0:12p1:5p2:0p3:7p4:3p5:1p-:1";
         StreetKeys x = Due.street(street, "m0>0m1>1m2>3m3>4c0>3i1@2l2@0q0/1x3m3>0");
         long[] before = new long[2];
@@ -126,7 +511,11 @@ public final class LanguageTest {
     }
 
     private static void count(Object o, Map<Object, Object> seen, long[] sums) {
-        if (o == null || seen.put(o, o) != null) {
+        if (o == null) {
+            due.fail("a reference is null");
+            return;
+        }
+        if (seen.put(o, o) != null) {
             return;
         }
         sums[0]++;
@@ -135,7 +524,7 @@ public final class LanguageTest {
             return;
         }
         for (Field f : o.getClass().getDeclaredFields()) {
-            if (!Modifier.isStatic(f.getModifiers())) {
+            if (!java.lang.reflect.Modifier.isStatic(f.getModifiers())) {
                 sums[1]++;
                 countField(o, f, seen, sums);
             }
@@ -153,149 +542,20 @@ public final class LanguageTest {
         }
     }
 
-    private static void face() {
-        Class<?> c = StreetKeys.class;
-        due.is("public and final", c.getModifiers(), Modifier.PUBLIC | Modifier.FINAL);
-        Set<String> publics = new TreeSet<>();
-        Set<String> names = new TreeSet<>();
-        for (Method m : c.getDeclaredMethods()) {
-            if (Modifier.isPublic(m.getModifiers())) {
-                publics.add(signature(m));
-                names.add(m.getName());
-            }
-        }
-        Set<String> wanted = new TreeSet<>(Arrays.asList(FACE.split(" ")));
-        if (!publics.equals(wanted)) {
-            due.fail("public methods are " + publics);
-        }
-        privateNames(c, names);
-        for (Class<?> inside : c.getDeclaredClasses()) {
-            due.is(inside + " is static", inside.getModifiers() & Modifier.STATIC, Modifier.STATIC);
-            privateNames(inside, names);
-            fewFields(inside);
-        }
-        fewFields(c);
-        if (c.getDeclaredClasses().length >= 12) {
-            due.fail("more than twelve classes");
-        }
-        for (Field f : c.getDeclaredFields()) {
-            boolean open = Modifier.isPublic(f.getModifiers());
-            boolean told = Set.of("BAD", "FULL", "FINDING", "STATE", "SPENT", "NONE").contains(f.getName());
-            if (open != told || !open && !Modifier.isPrivate(f.getModifiers())) {
-                due.fail("field " + f);
-            }
-        }
-        for (Constructor<?> k : c.getDeclaredConstructors()) {
-            due.is("parameters of " + k, k.getParameterCount(), 0);
-        }
-        long[] got = {StreetKeys.BAD, StreetKeys.FULL, StreetKeys.FINDING, StreetKeys.STATE, StreetKeys.SPENT,
-            StreetKeys.NONE};
-        long[] want = {-1, -2, -3, -4, -6, -9};
-        for (int i = 0; i < want.length; i++) {
-            due.is("constant " + i, got[i], want[i]);
-        }
-    }
+    // ---- 13
 
-    private static void privateNames(Class<?> c, Set<String> publicNames) {
-        for (Method m : c.getDeclaredMethods()) {
-            boolean open = c == StreetKeys.class && Modifier.isPublic(m.getModifiers());
-            if (!open && publicNames.contains(m.getName())) {
-                due.fail(m + " bears the name of a public method");
-            }
-            if (c == StreetKeys.class && !open && !Modifier.isPrivate(m.getModifiers())) {
-                due.fail(m + " is seen from outside");
-            }
-            if (m.getParameterCount() > 7) {
-                due.fail(m + " takes more than seven");
-            }
-        }
-    }
-
-    private static String signature(Method m) {
-        StringBuilder s = new StringBuilder(m.getName()).append('(');
-        for (Class<?> p : m.getParameterTypes()) {
-            s.append(p.descriptorString());
-        }
-        return s.append(')').append(m.getReturnType().descriptorString()).toString();
-    }
-
-    private static void words(String code) {
-        for (String word : RULED_OUT) {
-            boolean plain = Character.isLetter(word.charAt(0));
-            Pattern p = Pattern.compile(plain ? "\\b" + Pattern.quote(word) : Pattern.quote(word));
-            if (p.matcher(code).find()) {
-                due.fail("the program has '" + word + "'");
-            }
-        }
-    }
-
-    /** So that no run of calls fills the room. */
-    private static void objectsOnlyWithTheObject(String code) {
-        Matcher m = Pattern.compile("[^\n]*\\bnew\\b[^\n]*").matcher(code);
-        while (m.find()) {
-            String line = m.group().trim();
-            if (!line.matches("(private |final )*(int\\[\\] )?\\w+ = new (int\\[[^\\]]*\\]|\\w+\\([^()]*\\));")) {
-                due.fail("something may be made in a call: " + line);
-            }
-        }
-    }
-
-    private static void methodsAreShort(String source) {
-        int start = -1;
-        String[] lines = source.split("\n");
-        for (int i = 0; i < lines.length; i++) {
-            if (lines[i].matches("( {4}| {8})[\\w].*\\) \\{")) {
-                start = i;
-            }
-            if (lines[i].matches("( {4}| {8})\\}") && start >= 0) {
-                if (i - start > 60) {
-                    due.fail("a method of more than sixty lines: " + lines[start].trim());
-                }
-                start = -1;
-            }
-        }
-    }
-
-    private static void fewFields(Class<?> c) {
-        long fields = Arrays.stream(c.getDeclaredFields()).filter(f -> !Modifier.isStatic(f.getModifiers())).count();
-        if (fields > 20) {
-            due.fail(c + " has " + fields + " fields");
-        }
-    }
-
-    /** By names alone, methods of one name taken together: so rather too deep than not deep enough. */
-    private static void callsAreFlat(String code) {
-        Map<String, Set<String>> calls = new TreeMap<>();
-        String name = "";
-        for (String line : code.split("\n")) {
-            Matcher head = Pattern.compile("( {4}| {8})[\\w].*?(\\w+)\\([^()]*\\) \\{").matcher(line);
-            if (head.matches() && !line.matches(" *(if|for|switch|while).*")) {
-                name = head.group(2);
-                calls.computeIfAbsent(name, n -> new TreeSet<>());
-            } else if (calls.containsKey(name)) {
-                Matcher call = Pattern.compile("(\\w+)\\(").matcher(line);
-                while (call.find()) {
-                    calls.get(name).add(call.group(1));
-                }
-            }
-        }
-        due.is("enough methods seen", calls.size() > 90 ? 1 : 0, 1);
-        for (String from : calls.keySet()) {
-            String path = deepest(calls, from, 0);
-            if (path.split(" ").length > 8) {
-                due.fail("calls go too deep: " + path);
-            }
-        }
-    }
-
-    private static String deepest(Map<String, Set<String>> calls, String from, int depth) {
-        String longest = "";
-        if (depth < 20) {
-            for (String to : calls.getOrDefault(from, Set.of())) {
-                String path = calls.containsKey(to) ? deepest(calls, to, depth + 1) : "";
-                longest = path.split(" ").length > longest.split(" ").length || longest.isEmpty() ? path : longest;
-            }
-        }
-        return (from + " " + longest).trim();
+    /** The library that rule 4 leaves knows no clock and no chance; an object told the same is the same. */
+    private static void rule13SameAnswers() {
+        due.name("rule 13");
+        String street = "h9h20h3p0:12p1:5p2:0p-:1";
+        String year = "m0>0m1>1m2>3c0>3i1@2l2@0q0/1x2m2>0";
+        StreetKeys one = Due.street(street, year);
+        new StreetKeys().row(0, 40);
+        StreetKeys other = Due.street(street, year);
+        due.is("digest", other.digest(), one.digest());
+        due.is("round", other.round(0, 7, true), one.round(0, 7, true));
+        due.is("odds", other.odds(1, 0, false), one.odds(1, 0, false));
+        due.is("upper", other.upper(), one.upper());
+        due.is("lower", other.lower(), one.lower());
     }
 }

@@ -9,12 +9,15 @@ public final class ModelTest {
     private static final int RUNS = 400;
 
     private final Random random;
+    private final Drawn drawn;
     private final Model model = new Model();
-    private final StreetKeys x = new StreetKeys();
     private final String name;
+    private String street = "";
+    private StreetKeys x = new StreetKeys();
 
     private ModelTest(int seed) {
         random = new Random(seed);
+        drawn = new Drawn(random);
         name = "seed " + seed + ": ";
     }
 
@@ -29,22 +32,35 @@ public final class ModelTest {
 
     private void run() {
         for (int i = 0; i < 30; i++) {
-            faultOfStreet(marred(streetText()));
+            faultOfStreet(drawn.marred(drawn.street(6, 12)));
         }
-        String street = streetText();
+        street = drawn.street(6, 12);
         faultOfStreet(street);
         model.readStreet(street);
         due.is(name + "street " + street, x.street(0), model.costs.size());
         for (int i = 0; i < 8; i++) {
-            faultOfYear(marred(yearText(1 + random.nextInt(14))));
-            year(yearText(1 + random.nextInt(8)));
+            anew();
+            faultOfYear(drawn.marred(drawn.year(model, 1 + random.nextInt(14))));
+            anew();
+            year(drawn.year(model, 1 + random.nextInt(8)));
             for (int j = 0; j < 3; j++) {
                 event();
             }
             if (random.nextInt(6) == 0) {
                 goBack();
             }
+            anew();
             questions();
+        }
+    }
+
+    /** What calls behind the 512th answer is free: so all that there is comes to a new object. */
+    private void anew() {
+        x = new StreetKeys();
+        Due.write(x, 0, street);
+        x.street(0);
+        for (Model.Event e : model.events) {
+            x.event(e.kind(), e.a(), e.b(), e.change() > 0);
         }
     }
 
@@ -55,9 +71,9 @@ public final class ModelTest {
         for (int p = 0; p < houses + random.nextInt(3); p++) {
             s.append('p').append(p < houses ? p : random.nextInt(houses)).append(":1");
         }
-        Due.write(x, 0, s.toString());
-        x.street(0);
-        model.readStreet(s.toString());
+        street = s.toString();
+        model.readStreet(street);
+        anew();
         for (int i = random.nextInt(12); i > 0; i--) {
             boolean keys = random.nextInt(3) > 0;
             int a = random.nextInt(houses);
@@ -69,78 +85,14 @@ public final class ModelTest {
         model.settle();
         for (int n = 1; n < 3; n++) {
             for (int m = 0; m < 6; m++) {
+                anew();
                 plan(n, m);
             }
         }
     }
 
-    private String streetText() {
-        StringBuilder s = new StringBuilder();
-        int houses = random.nextInt(7);
-        int persons = random.nextInt(13);
-        int told = 0;
-        for (int i = 0; i < houses + persons; i++) {
-            s.append(" ".repeat(random.nextInt(4) / 3));
-            if (told < houses && (i < houses - 1 || random.nextBoolean() || i - told >= persons)) {
-                s.append('h').append(number(random.nextInt(random.nextBoolean() ? 3 : 100)));
-                told++;
-            } else {
-                String home = told == 0 || random.nextInt(5) == 0 ? "-" : "" + random.nextInt(told);
-                s.append('p').append(home).append(':').append(number(random.nextInt(13)));
-            }
-        }
-        return s.toString();
-    }
-
-    private String number(int v) {
-        return v < 10 && random.nextInt(6) == 0 ? "0" + v : "" + v;
-    }
-
-    private String yearText(int items) {
-        StringBuilder s = new StringBuilder();
-        int keys = model.keys.size();
-        int houses = model.costs.size();
-        int persons = model.homes.size();
-        for (int i = 0; i < items; i++) {
-            s.append(" ".repeat(random.nextInt(4) / 3));
-            char letter = "mmmmcgggllliiiixqqf".charAt(random.nextInt(19));
-            boolean needsKey = "cgli".indexOf(letter) >= 0;
-            if ("mx".indexOf(letter) >= 0 || needsKey && keys == 0) {
-                if (houses > 0 && persons > 0) {
-                    s.append(letter == 'x' ? "x" : "m").append(random.nextInt(houses));
-                    s.append(letter == 'x' ? "" : ">" + number(random.nextInt(persons)));
-                    keys += letter == 'x' ? 0 : 1;
-                }
-            } else if (needsKey) {
-                boolean toHouse = letter == 'l' || letter == 'i';
-                s.append(letter).append(number(random.nextInt(keys))).append(toHouse ? '@' : '>');
-                s.append(toHouse ? "" + random.nextInt(houses) : number(random.nextInt(persons)));
-                keys += letter == 'c' ? 1 : 0;
-            } else if (persons > 1) {
-                int a = random.nextInt(persons);
-                s.append(letter).append(number(a)).append('/');
-                s.append(number((a + 1 + random.nextInt(persons - 1)) % persons));
-            }
-        }
-        return s.toString();
-    }
-
-    /** A text with a sign changed, taken out or put in, or cut short, or as it is. */
-    private String marred(String text) {
-        int i = random.nextInt(text.length() + 1);
-        String sign = "" + " hpmcglixqf0123456789:>@/-y".charAt(random.nextInt(27));
-        String rest = i < text.length() ? text.substring(i + 1) : "";
-        String marred = switch (random.nextInt(5)) {
-            case 0 -> text.substring(0, i) + sign + rest;
-            case 1 -> text.substring(0, i) + rest;
-            case 2 -> text.substring(0, i) + sign + text.substring(i);
-            case 3 -> text.substring(0, i);
-            default -> text;
-        };
-        return marred.length() > 120 ? marred.substring(0, 120) : marred;
-    }
-
     private void faultOfStreet(String text) {
+        x = new StreetKeys();
         Due.write(x, 0, text);
         int fault = Model.streetFault(text);
         due.is(name + "fault of street '" + text + "'", x.fault(0, false), fault);
@@ -158,8 +110,7 @@ public final class ModelTest {
         }
     }
 
-    private void year(String whole) {
-        String text = whole.length() > 120 ? whole.substring(0, 120) : whole;
+    private void year(String text) {
         List<Model.Event> more = new ArrayList<>();
         Due.write(x, 1, text);
         int fault = model.yearFault(text, more);

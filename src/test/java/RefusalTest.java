@@ -7,8 +7,8 @@ import java.util.Random;
 import java.util.Set;
 
 /**
- * Any calls with any numbers, 512 an object, from fixed seeds: none throws, only what the document
- * names is refused, and what is refused (or NONE) changes nothing but finding(), findings().
+ * Any calls with any numbers, from fixed seeds: none throws, only what the document names is
+ * refused, and what is refused (or NONE) changes nothing but finding(), findings().
  */
 public final class RefusalTest {
     private static final Due due = new Due("RefusalTest");
@@ -21,7 +21,7 @@ public final class RefusalTest {
         Method[] calls = Arrays.stream(StreetKeys.class.getDeclaredMethods())
             .filter(m -> Modifier.isPublic(m.getModifiers()))
             .sorted(Comparator.comparing(Method::getName)).toArray(Method[]::new);
-        for (int seed = 0; seed < 150; seed++) {
+        for (int seed = 0; seed < 4000; seed++) {
             run(calls, new Random(seed));
         }
         due.end();
@@ -32,7 +32,8 @@ public final class RefusalTest {
         if (random.nextInt(8) > 0) {
             x = Due.street("h9h20h3h1p0:12p1:5p1:0p-:7p3:3", "m0>0m1>1m2>3m3>4c0>3i1@2l2@0q0/1x3m3>0");
         }
-        for (int i = 0; i < 512; i++) {
+        // Each is looked at by some twenty calls more, and an object is for 512 in all.
+        for (int i = 0; i < 20; i++) {
             Method m = calls[random.nextInt(calls.length)];
             Object[] given = new Object[m.getParameterCount()];
             for (int a = 0; a < given.length; a++) {
