@@ -269,6 +269,13 @@ final class KeyEdges {
         Trial.of(THREE + "p1:1", "m0>1m0>1m0>3").says("safe(1, 2, 0)", 5);
     }
 
+    static void terms3_whoeverOfAHouseHoldsOneItHasAKey() {
+        Trial.of(THREE + "p1:1", "m0>1").says("safe(1, 2, 0)", 5);
+        Trial.of(THREE + "p1:1", "m0>3").says("safe(1, 2, 0)", 5);
+        Trial.of(THREE + "p1:1", "m0>1m2>3").says("safe(1, 2, 0)", 4).rowIs(0, 0, 2, 1, 0, 1, 2, 2, 0);
+        Trial.of(THREE + "p1:1", "m0>3m2>1").says("safe(1, 2, 0)", 4).rowIs(0, 0, 2, 1, 0, 1, 2, 2, 0);
+    }
+
     static void terms3_aKeyOfItsOwnIsNoneOfAnother() {
         Trial.of(THREE, "m0>0m1>1m2>2").says("safe(1, 2, 0)", 6);
     }

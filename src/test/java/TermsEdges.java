@@ -25,6 +25,30 @@ final class TermsEdges {
         }
     }
 
+    // ---- an object is used for 512 calls
+
+    static void terms_everyCallHoldsAsThe512th() {
+        Object[] due = {"row(0, 3)", 3, "lay(1, 1, 9)", 1, "at(1, 2)", 1, "tear(1)", 1, "copy(1, 0, 1, 1, 2)", 1,
+            "mean(1)", 1, "text(3, 7)", 7, "put(0, 0, 65)", 1104, "fault(0, false)", NONE, "street(0)", 2,
+            "year(1)", 6, "event(1, 0, 0, true)", 6, "back(2)", 4, "told(3, 0)", 1, "mark(3, 4)", 1,
+            "house(0, 0)", 1, "person(2, 0)", 1, "key(0, 0)", 1, "trust(0, 1)", 1, "alone(2)", 1,
+            "wake(1, 0, false)", 0, "odds(1, 0, false)", 0, "soonest(1, 0, false)", 3, "round(1, 1, false)", 4,
+            "stuck()", 2, "safe(1, 9, 0)", NONE, "suspects(0)", 6, "copies(1, 0)", 0, "dead(1)", 1, "lost(0, 0)", 1,
+            "asked()", 20, "upper()", 7, "lower()", 12, "count(3)", 2, "finding()", 1, "findings(1)", 1};
+        for (int i = 0; i < due.length; i += 2) {
+            rich().idleTo(511).says((String) due[i], (int) due[i + 1]);
+        }
+        rich().idleTo(511).says("digest()", rich().call("digest()"));
+        EdgeTest.due.is("calls of the face", due.length / 2 + 1, 37);
+    }
+
+    static void terms_whatTheFirstCallsToldStandsAtThe512th() {
+        rich().idleTo(506).tells("at(1, 1)", -5).tells("key(2, 3)", 1).says("year(0)", STATE).says("count(4)", 6);
+        rich().idleTo(509).says("at(0, 0)", Trial.FINDING).says("finding()", NOTHING).says("findings(1)", 2);
+        rich().idleTo(508).says("back(1)", 5).says("count(2)", 1).says("event(6, 1, 0, true)", 1)
+            .says("mark(1, 6)", 1);
+    }
+
     // ---- the order in which a call is refused
 
     static void terms_badAheadOfFull() {

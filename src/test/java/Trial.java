@@ -82,6 +82,14 @@ final class Trial {
         return this;
     }
 
+    /** Calls that change nothing, until as many as told have been made. */
+    Trial idleTo(int told) {
+        for (int i = calls; i < told; i++) {
+            call("count(" + i % 8 + ")");
+        }
+        return this;
+    }
+
     Trial says(String call, long want) {
         due.is(call, call(call), want);
         return this;
